@@ -19,7 +19,7 @@ public final class ExpressHouse {
     private final Judge referee = new Judge(people, machine);
     private final FileReader source = new FileReader(people);
     private final FileWriter output = new FileWriter(people);
-    private Value hand = Value.nothing();
+    private Value hand = new Value(Value.NOTHING, 0);
     private final Value[] slots = new Value[KEPT];
     private final Value[] rows = new Value[KEPT];
     private int latestFault;
@@ -79,7 +79,7 @@ public final class ExpressHouse {
     }
 
     private void emptyHands() {
-        hand = Value.nothing();
+        hand = new Value(Value.NOTHING, 0);
         for (int k = 0; k < KEPT; k++) {
             slots[k] = hand;
             rows[k] = hand;
@@ -216,7 +216,7 @@ public final class ExpressHouse {
             return BAD;
         }
         people.prepare();
-        return runToHand(people.schema.codeOfAccess(a), Value.of(Value.INSTANCE, x));
+        return runToHand(people.schema.codeOfAccess(a), new Value(Value.INSTANCE, x));
     }
 
     private int runToHand(int start, Value self) {
@@ -302,7 +302,7 @@ public final class ExpressHouse {
         if (hand.holes != 0) {
             return MISSING;
         }
-        rows[k] = Value.aggregate(Value.LIST, 1, hand.lane, 0, hand.cells);
+        rows[k] = new Value(Value.LIST, 1, hand.lane, 0, hand.cells);
         return hand.cells.length;
     }
 
@@ -341,7 +341,7 @@ public final class ExpressHouse {
         if (i >= 0 && i < cells.length) {
             cells[i] = elementOf(lane, v);
         }
-        rows[k] = Value.aggregate(Value.LIST, 1, lane, 0, cells);
+        rows[k] = new Value(Value.LIST, 1, lane, 0, cells);
         return 1;
     }
 
@@ -378,7 +378,7 @@ public final class ExpressHouse {
         }
         long[] cells = to.cells.clone();
         System.arraycopy(from.cells, i, cells, j, n);
-        rows[m] = Value.aggregate(Value.LIST, 1, to.lane, 0, cells);
+        rows[m] = new Value(Value.LIST, 1, to.lane, 0, cells);
         return 1;
     }
 
@@ -429,7 +429,13 @@ public final class ExpressHouse {
     // ---- files
 
     public int write() {
-        return output.fill();
+        output.start();
+        for (int x = 0; x < people.made; x++) {
+            if (people.exists(x)) {
+                output.instance(x, people.rowOf(x));
+            }
+        }
+        return output.finish();
     }
 
     public int out(int i) {
@@ -437,10 +443,16 @@ public final class ExpressHouse {
     }
 
     public int read() {
-        int outcome = source.load(tape, taped);
+        source.start(tape, taped);
+        for (int reading = 1; reading <= 2 && source.fault == 0; reading++) {
+            source.startReading(reading == 2);
+            for (int n = 0; n < taped && source.goesOn(); n++) {
+                source.entryPart();
+            }
+        }
         taped = 0;
         latestFault = source.fault;
-        return outcome;
+        return source.finish();
     }
 
     public int told(int n) {
@@ -461,7 +473,7 @@ public final class ExpressHouse {
         if (!people.restore()) {
             return NONE;
         }
-        hand = Value.nothing();
+        hand = new Value(Value.NOTHING, 0);
         for (int k = 0; k < KEPT; k++) {
             slots[k] = hand;
             if (rows[k].lane == Value.INSTANCE) {
@@ -727,10 +739,15 @@ public final class ExpressHouse {
         }
 
         void expect(int kind) {
-            if (current == kind) {
-                advance();
-            } else {
-                refuse();
+            if (current != kind) {
+                fault = current == STOPPED ? fault : current == WRONG ? 1 : 2;
+                faultPlace = current == STOPPED ? faultPlace : place;
+                current = STOPPED;
+            } else if (at + 1 < total && at + 1 < kinds.length) {
+                at++;
+                current = kinds[at];
+                place = places[at];
+                value = values[at];
             }
         }
 
@@ -854,6 +871,17 @@ public final class ExpressHouse {
             return sign | (long) exponent << 52 | (long) a & FRACTION;
         }
 
+        /** Whether a real is just this whole of 32 bits. */
+        static boolean isWhole(long b, long whole) {
+            int exponent = (int) (b >>> 52) & 2047;
+            if (exponent < 1023 || exponent > 1054) {
+                return whole == 0 && (b & SIZE) == 0;
+            }
+            long shifted = ((b & FRACTION) | 1L << 52) << exponent - 1023;
+            long size = whole < 0 ? -whole : whole;
+            return size << 52 == shifted && whole < 0 == b < 0;
+        }
+
         static long ofDecimal(long digits, long scale) {
             return scale > 0 ? toBits((double) digits / (double) scale) : 0;
         }
@@ -921,7 +949,7 @@ public final class ExpressHouse {
         /** Rounds to a whole: down (-1), up (1), or to the nearest one, of two to the even one (0). */
         static long rounded(long b, int direction) {
             if ((b & SIZE) >= 1075L << 52) {
-                return clean(b);
+                return b;
             }
             double a = toDouble(b & SIZE);
             long whole = (long) a;
@@ -952,30 +980,26 @@ public final class ExpressHouse {
         final int holes;
         final long[] cells;
 
-        private Value(int kind, long bits, int sort, int low, int lane, int holes, long[] cells) {
+        /** A value that is no aggregate. */
+        private Value(int kind, long bits) {
             this.kind = kind;
             this.bits = bits;
+            this.sort = ARRAY;
+            this.low = 0;
+            this.lane = 0;
+            this.holes = 0;
+            this.cells = NO_CELLS;
+        }
+
+        /** An aggregate. */
+        private Value(int sort, int low, int lane, int holes, long[] cells) {
+            this.kind = AGGREGATE;
+            this.bits = 0;
             this.sort = sort;
             this.low = low;
             this.lane = lane;
             this.holes = holes;
             this.cells = cells;
-        }
-
-        static Value nothing() {
-            return new Value(NOTHING, 0, 0, 0, 0, 0, NO_CELLS);
-        }
-
-        static Value of(int kind, long bits) {
-            return new Value(kind, bits, 0, 0, 0, 0, NO_CELLS);
-        }
-
-        static Value truth(boolean holds) {
-            return of(LOGICAL, holds ? TRUE : FALSE);
-        }
-
-        static Value aggregate(int sort, int low, int lane, int holes, long[] cells) {
-            return new Value(AGGREGATE, 0, sort, low, lane, holes, cells);
         }
 
         boolean isNumber() {
@@ -1013,7 +1037,7 @@ public final class ExpressHouse {
     private static final class Schema {
         static final int TYPES = 0, ITEMS = 1, ENTITIES = 2, ATTRIBUTES = 3, FUNCTIONS = 4, RULES = 5;
         // cells of a type
-        static final int FORM = 0, TYPE_KIND = 1, SEES = 2, ACCEPTS = 3;
+        static final int FORM = 0, TYPE_KIND = 1, SEES = 2, ACCEPTS = 3, LISTED = 4;
         static final int KIND_FORM = 0, ENUM_FORM = 1, SELECT_FORM = 2;
         // cells of an entity; the first eight are those of entity()
         static final int ABSTRACT = 0, UNDER = 1, ABOVE = 2, EXPLICIT = 3, DERIVED = 4, INVERSE = 5, UNIQUES = 6,
@@ -1021,8 +1045,9 @@ public final class ExpressHouse {
         // cells of an attribute; the first three are those of attribute()
         static final int ENTITY = 0, SORT = 1, OPTIONAL = 2, KIND = 3, FOR = 4, CODE = 5;
         static final int EXPLICIT_SORT = 0, DERIVED_SORT = 1, INVERSE_SORT = 2;
-        // cells of a kind; the first four are 3 to 6 of attribute()
-        static final int AGGREGATE = 0, LOW = 1, HIGH = 2, ITEM = 3, RESOLVED = 4;
+        // cells of a kind: as it is written, which is 3 to 6 of attribute(), and to what it leads through types
+        static final int AGGREGATE = 0, LOW = 1, HIGH = 2, ITEM = 3;
+        static final int END_AGGREGATE = 4, END_LOW = 5, END_HIGH = 6, ACCEPTED = 7, TO_REAL = 8, KIND_CELLS = 9;
         static final int INTEGER_ITEM = 0, REAL_ITEM = 1, LOGICAL_ITEM = 2, TYPE_ITEM = 3, ENTITY_ITEM = 20;
         // cells of a function
         static final int PARAMETERS = 0, RESULT = 1, START = 2, LOCAL_KINDS = 3;
@@ -1037,12 +1062,12 @@ public final class ExpressHouse {
         final long[][] names = new long[6][40];
         final int[] counts = new int[6];
         final int[] itemTypes = new int[20];
-        final int[][] types = new int[8][4];
+        final int[][] types = new int[8][5];
         final int[][] entities = new int[12][9];
         /** The attributes of each list of a "unique", as bits. */
         final long[] uniques = new long[12 * UNIQUES_MOST];
         final int[][] attributes = new int[40][6];
-        final int[][] kinds = new int[128][5];
+        final int[][] kinds = new int[128][KIND_CELLS];
         final int[][] functions = new int[6][LOCAL_KINDS + LOCALS_MOST];
         final int[] wheres = new int[SITES];
         final int[] whereStarts = new int[SITES * WHERES_MOST];
@@ -1128,12 +1153,7 @@ public final class ExpressHouse {
 
         /** A cell of a kind; NONE if there is no such kind or cell. */
         int kindCell(int kind, int cell) {
-            return kind < 0 || kind >= kinds.length || cell < 0 || cell > RESOLVED ? NONE : kinds[kind][cell];
-        }
-
-        /** The kind to which a kind leads through types that have a kind. */
-        int resolved(int kind) {
-            return kindCell(kind, RESOLVED);
+            return kind < 0 || kind >= kinds.length || cell < 0 || cell >= KIND_CELLS ? NONE : kinds[kind][cell];
         }
 
         boolean isType(int item) {
@@ -1157,12 +1177,27 @@ public final class ExpressHouse {
                 }
             }
             for (int k = 0; k < kinds.length; k++) {
-                int end = k;
-                for (int turn = 0; turn < types.length && goesOn(end); turn++) {
-                    end = types[kinds[end][ITEM] - TYPE_ITEM][TYPE_KIND];
+                int end = endOf(k);
+                for (int cell = AGGREGATE; cell <= HIGH; cell++) {
+                    kinds[k][END_AGGREGATE + cell] = kinds[end][cell];
                 }
-                kinds[k][RESOLVED] = end;
+                int item = kinds[end][ITEM];
+                kinds[k][ACCEPTED] = accepts(item);
+                kinds[k][TO_REAL] = isReal(item) ? 1 : 0;
             }
+            for (int t = 0; t < types.length; t++) {
+                boolean listed = types[t][FORM] == KIND_FORM && kindCell(types[t][TYPE_KIND], END_AGGREGATE) >= 0;
+                types[t][LISTED] = listed ? 1 : 0;
+            }
+        }
+
+        /** The kind to which a kind leads through types that have a kind. */
+        private int endOf(int kind) {
+            int end = kind;
+            for (int turn = 0; turn < types.length && goesOn(end); turn++) {
+                end = types[kinds[end][ITEM] - TYPE_ITEM][TYPE_KIND];
+            }
+            return end;
         }
 
         private boolean goesOn(int kind) {
@@ -1200,18 +1235,15 @@ public final class ExpressHouse {
 
         /** Whether an item is a type that is an aggregate, directly or through types. */
         boolean isAggregate(int item) {
-            if (!isKindType(item)) {
-                return false;
-            }
-            return kindCell(resolved(types[item - TYPE_ITEM][TYPE_KIND]), AGGREGATE) >= 0;
+            return item >= TYPE_ITEM && item < TYPE_ITEM + types.length && types[item - TYPE_ITEM][LISTED] == 1;
         }
 
         /** Whether an item is real, directly or through types, but not through a select. */
-        boolean isReal(int item) {
+        private boolean isReal(int item) {
             if (!isKindType(item)) {
                 return item == REAL_ITEM;
             }
-            int end = resolved(types[item - TYPE_ITEM][TYPE_KIND]);
+            int end = endOf(types[item - TYPE_ITEM][TYPE_KIND]);
             return kindCell(end, AGGREGATE) < 0 && kindCell(end, ITEM) == REAL_ITEM;
         }
 
@@ -1253,6 +1285,12 @@ public final class ExpressHouse {
                 code[codeEnd + 3] = Machine.RETURN;
             }
             return codeEnd;
+        }
+
+        /** Where the code of expression i of the "where" at a site begins. */
+        int startOfWhere(int site, int i) {
+            int at = site * WHERES_MOST + i;
+            return at >= 0 && at < whereStarts.length ? whereStarts[at] : 0;
         }
 
         int ruleCount() {
@@ -1538,7 +1576,7 @@ public final class ExpressHouse {
             stepMore(start);
         }
 
-        void exp() {
+        private void exp() {
             int start = top;
             sum();
             int sign = tokens.current;
@@ -1653,7 +1691,7 @@ public final class ExpressHouse {
                     int token = tokens.current;
                     long value = tokens.value;
                     int place = tokens.place;
-                    if (startsExp(token)) {
+                    if (startsExp(token) && token != Tokens.MINUS && token != Tokens.NOT) {
                         operator(start);
                         constant(token, value, place);
                     } else {
@@ -1990,8 +2028,9 @@ public final class ExpressHouse {
             int t = draft.find(Schema.TYPES, tokens.value);
             int e = draft.find(Schema.ENTITIES, tokens.value);
             int item = t >= 0 ? Schema.TYPE_ITEM + t : e >= 0 ? Schema.ENTITY_ITEM + e : NONE;
-            if (item < 0 || pass == BIND && inAggregate && draft.isAggregate(item)) {
-                misnamed();
+            boolean fine = item >= 0 && !(inAggregate && draft.isAggregate(item));
+            if (!fine && pass != DECLARE && tokens.is(Tokens.NAME)) {
+                tokens.soft(4, tokens.place);
             }
             tokens.expect(Tokens.NAME);
             return item;
@@ -2029,24 +2068,22 @@ public final class ExpressHouse {
         private void bounds(int k) {
             int[] cells = draft.kinds[k];
             tokens.expect(Tokens.OPEN_SQUARE);
-            boundWithin(0);
+            if (tokens.is(Tokens.WHOLE) && tokens.value > BOUND_MOST) {
+                tokens.fail(5);
+            }
             cells[Schema.LOW] = (int) tokens.value;
             tokens.expect(Tokens.WHOLE);
             tokens.expect(Tokens.COLON);
             if (tokens.is(Tokens.QUESTION)) {
                 tokens.advance();
             } else {
-                boundWithin(cells[Schema.LOW]);
+                if (tokens.is(Tokens.WHOLE) && (tokens.value > BOUND_MOST || tokens.value < cells[Schema.LOW])) {
+                    tokens.fail(5);
+                }
                 cells[Schema.HIGH] = (int) tokens.value;
                 tokens.expect(Tokens.WHOLE);
             }
             tokens.expect(Tokens.CLOSE_SQUARE);
-        }
-
-        private void boundWithin(int least) {
-            if (tokens.is(Tokens.WHOLE) && (tokens.value > BOUND_MOST || tokens.value < least)) {
-                tokens.fail(5);
-            }
         }
 
         private void where(int site) {
@@ -2517,7 +2554,7 @@ public final class ExpressHouse {
         private static final int ATTRIBUTES = 40;
 
         Schema schema;
-        final Value nothing = Value.nothing();
+        final Value nothing = new Value(Value.NOTHING, 0);
         int made;
         /** The combinations; behind those of the instances that were made, those that a file may make. */
         final int[] combinations = new int[512];
@@ -2656,7 +2693,7 @@ public final class ExpressHouse {
                 }
             }
             long[] kept = value.sort == Value.ARRAY ? cells : Arrays.copyOf(cells, left);
-            return Value.aggregate(value.sort, value.low, value.lane, holes, kept);
+            return new Value(value.sort, value.low, value.lane, holes, kept);
         }
 
         /** The set of all instances of an entity, or nothing if they are too many. */
@@ -2676,7 +2713,7 @@ public final class ExpressHouse {
 
         private Value instances(int sort, long[] cells, int found) {
             return found > cells.length ? nothing
-                : Value.aggregate(sort, 1, Value.INSTANCE, 0, Arrays.copyOf(cells, found));
+                : new Value(sort, 1, Value.INSTANCE, 0, Arrays.copyOf(cells, found));
         }
 
         /** The set of the instances whose attribute a holds x, or nothing if they are too many. */
@@ -2794,9 +2831,14 @@ public final class ExpressHouse {
 
         /** Whether two values that are no aggregates, given by their kinds and bits, are alike. */
         boolean cellsAlike(int kindA, long a, int kindB, long b) {
+            if (kindA == Value.INTEGER && kindB == Value.REAL) {
+                return Reals.isWhole(b, a);
+            }
+            if (kindA == Value.REAL && kindB == Value.INTEGER) {
+                return Reals.isWhole(a, b);
+            }
             if (kindA != kindB) {
-                return kindA == Value.INTEGER && kindB == Value.REAL && isWhole(b, a)
-                    || kindA == Value.REAL && kindB == Value.INTEGER && isWhole(a, b);
+                return false;
             }
             switch (kindA) {
                 case Value.REAL:
@@ -2809,65 +2851,62 @@ public final class ExpressHouse {
             }
         }
 
-        private static boolean isWhole(long real, long whole) {
-            return !Reals.isNan(real) && Reals.toDouble(real) == (double) whole;
-        }
-
         /** A value as it is converted for a kind. */
         Value converted(Value value, int kind) {
-            int end = schema.resolved(kind);
-            int sort = schema.kindCell(end, Schema.AGGREGATE);
+            if (kind < 0 || kind >= schema.kinds.length) {
+                return value;
+            }
+            int sort = schema.kinds[kind][Schema.END_AGGREGATE];
             if (sort < 0) {
-                return convertedForItem(value, schema.kindCell(end, Schema.ITEM));
+                return convertedScalar(value, kind);
             }
             if (value.kind != Value.AGGREGATE || value.sort != Value.LIST || sort == Value.LIST) {
                 return value;
             }
-            int low = sort == Value.ARRAY ? schema.kindCell(end, Schema.LOW) : 1;
-            long[] cells = sort == Value.SET ? distinct(value) : value.cells;
-            return Value.aggregate(sort, low, value.lane, 0, cells);
-        }
-
-        Value convertedForItem(Value value, int item) {
-            return value.kind == Value.INTEGER && schema.isReal(item) ? Value.of(Value.REAL, Reals.of(value)) : value;
-        }
-
-        private long[] distinct(Value list) {
-            long[] cells = new long[list.cells.length];
+            if (sort != Value.SET) {
+                int low = sort == Value.ARRAY ? schema.kinds[kind][Schema.END_LOW] : 1;
+                return new Value(sort, low, value.lane, 0, value.cells);
+            }
+            long[] cells = new long[value.cells.length];
             int count = 0;
             for (int i = 0; i < cells.length; i++) {
                 boolean known = false;
                 for (int j = 0; j < count && !known; j++) {
-                    known = cellsAlike(list.lane, list.cells[i], list.lane, cells[j]);
+                    known = cellsAlike(value.lane, value.cells[i], value.lane, cells[j]);
                 }
                 if (!known) {
-                    cells[count] = list.cells[i];
+                    cells[count] = value.cells[i];
                     count++;
                 }
             }
-            return Arrays.copyOf(cells, count);
+            return new Value(Value.SET, 1, value.lane, 0, Arrays.copyOf(cells, count));
+        }
+
+        /** A value as it is converted for the item of a kind, or for a kind that is no aggregate. */
+        Value convertedScalar(Value value, int kind) {
+            return value.kind == Value.INTEGER && schema.kindCell(kind, Schema.TO_REAL) == 1
+                ? new Value(Value.REAL, Reals.toBits((double) value.bits)) : value;
         }
 
         /** Whether a value, converted before, fits a kind. */
         boolean fits(Value value, int kind) {
-            int end = schema.resolved(kind);
-            int sort = schema.kindCell(end, Schema.AGGREGATE);
-            int accepted = schema.accepts(schema.kindCell(end, Schema.ITEM));
-            if (value.kind != Value.AGGREGATE || sort < 0) {
-                return value.kind == Value.NOTHING || sort < 0 && isAccepted(accepted, value.kind, value.bits);
+            if (value.kind == Value.NOTHING || kind < 0 || kind >= schema.kinds.length) {
+                return value.kind == Value.NOTHING;
             }
-            int low = schema.kindCell(end, Schema.LOW);
-            int high = schema.kindCell(end, Schema.HIGH);
+            int[] cells = schema.kinds[kind];
+            int sort = cells[Schema.END_AGGREGATE];
+            if (sort < 0) {
+                return isAccepted(cells[Schema.ACCEPTED], value.kind, value.bits);
+            }
+            int low = cells[Schema.END_LOW];
+            int high = cells[Schema.END_HIGH];
             int size = value.cells.length;
-            if (value.sort != sort || sort == Value.ARRAY && (value.low != low || high >= 0 && size != high - low + 1)) {
-                return false;
+            boolean fits = value.kind == Value.AGGREGATE && value.sort == sort;
+            fits &= sort != Value.ARRAY || value.low == low && (high < 0 || size == high - low + 1);
+            for (int i = 0; i < size && fits; i++) {
+                fits = value.isHole(i) || isAccepted(cells[Schema.ACCEPTED], value.lane, value.cells[i]);
             }
-            for (int i = 0; i < size; i++) {
-                if (!value.isHole(i) && !isAccepted(accepted, value.lane, value.cells[i])) {
-                    return false;
-                }
-            }
-            return true;
+            return fits;
         }
 
         /** Whether a value of a kind is among what an item accepts, as Schema.accepts() tells it. */
@@ -2880,10 +2919,10 @@ public final class ExpressHouse {
                 case Value.LOGICAL:
                     return (accepted >> kind - 1 & 1) == 1;
                 case Value.ITEM:
-                    int type = schema.typeOfItem((int) bits);
-                    return type >= 0 && (accepted >> Schema.TYPE_ITEM + type & 1) == 1;
+                    return bits >= 0 && bits < schema.itemTypes.length
+                        && (accepted >> Schema.TYPE_ITEM + schema.itemTypes[(int) bits] & 1) == 1;
                 case Value.INSTANCE:
-                    return (accepted >> 11 & rowOf((int) bits)) != 0;
+                    return bits >= 0 && bits < combinations.length && (accepted >> 11 & combinations[(int) bits]) != 0;
                 default:
                     return false;
             }
@@ -2923,6 +2962,7 @@ public final class ExpressHouse {
     private static final class Operators {
         /** The first built-in function with two arguments. */
         static final int TWO_ARGUMENTS = 11;
+        private static final long NO_INTEGER = 1L << 40;
 
         private final Population people;
         private final Value nothing;
@@ -2934,7 +2974,7 @@ public final class ExpressHouse {
         }
 
         Value integer(long result) {
-            return result == (int) result ? Value.of(Value.INTEGER, result) : nothing;
+            return result == (int) result ? new Value(Value.INTEGER, result) : nothing;
         }
 
         Value numbers(int sign, Value a, Value b) {
@@ -2947,23 +2987,36 @@ public final class ExpressHouse {
             long x = Reals.of(a);
             long y = Reals.of(b);
             switch (sign) {
-                case Tokens.PLUS: return Value.of(Value.REAL, Reals.plus(x, y));
-                case Tokens.MINUS: return Value.of(Value.REAL, Reals.plus(x, Reals.negative(y)));
-                case Tokens.TIMES: return Value.of(Value.REAL, Reals.times(x, y));
-                case Tokens.SLASH: return Value.of(Value.REAL, Reals.over(x, y));
+                case Tokens.PLUS: return new Value(Value.REAL, Reals.plus(x, y));
+                case Tokens.MINUS: return new Value(Value.REAL, Reals.plus(x, Reals.negative(y)));
+                case Tokens.TIMES: return new Value(Value.REAL, Reals.times(x, y));
+                case Tokens.SLASH: return new Value(Value.REAL, Reals.over(x, y));
                 default: return nothing;
             }
         }
 
         private Value wholes(int sign, long a, long b) {
+            long result = NO_INTEGER;
             switch (sign) {
-                case Tokens.PLUS: return integer(a + b);
-                case Tokens.MINUS: return integer(a - b);
-                case Tokens.TIMES: return integer(a * b);
-                case Tokens.DIV: return b == 0 ? nothing : integer(a / b);
-                case Tokens.MOD: return b == 0 ? nothing : integer(a % b);
-                default: return nothing;
+                case Tokens.PLUS:
+                    result = a + b;
+                    break;
+                case Tokens.MINUS:
+                    result = a - b;
+                    break;
+                case Tokens.TIMES:
+                    result = a * b;
+                    break;
+                case Tokens.DIV:
+                    result = b == 0 ? NO_INTEGER : a / b;
+                    break;
+                case Tokens.MOD:
+                    result = b == 0 ? NO_INTEGER : a % b;
+                    break;
+                default:
+                    break;
             }
+            return result == (int) result ? new Value(Value.INTEGER, result) : nothing;
         }
 
         /** Joins two aggregates: + of lists, bags and sets, * and - of sets. */
@@ -2991,7 +3044,7 @@ public final class ExpressHouse {
             }
             int lane = plus && a.lane == 0 ? b.lane : a.lane;
             return count > Value.PLACES_MOST ? nothing
-                : Value.aggregate(a.sort, 1, lane, 0, Arrays.copyOf(room, count));
+                : new Value(a.sort, 1, lane, 0, Arrays.copyOf(room, count));
         }
 
         /** Whether some place of an aggregate is alike to a value that is none. */
@@ -3003,6 +3056,10 @@ public final class ExpressHouse {
             return found;
         }
 
+        private static Value truth(boolean holds) {
+            return new Value(Value.LOGICAL, holds ? Value.TRUE : Value.FALSE);
+        }
+
         Value logic(int sign, Value a, Value b) {
             long x = a.kind == Value.NOTHING ? Value.UNKNOWN : a.bits;
             long y = b.kind == Value.NOTHING ? Value.UNKNOWN : b.bits;
@@ -3010,35 +3067,35 @@ public final class ExpressHouse {
                 return nothing;
             }
             if (sign == Tokens.AND) {
-                return Value.of(Value.LOGICAL, Math.min(x, y));
+                return new Value(Value.LOGICAL, Math.min(x, y));
             }
             if (sign == Tokens.OR) {
-                return Value.of(Value.LOGICAL, Math.max(x, y));
+                return new Value(Value.LOGICAL, Math.max(x, y));
             }
             boolean open = x == Value.UNKNOWN || y == Value.UNKNOWN;
-            return open ? Value.of(Value.LOGICAL, Value.UNKNOWN) : Value.truth(x != y);
+            return open ? new Value(Value.LOGICAL, Value.UNKNOWN) : truth(x != y);
         }
 
         Value inverted(Value a) {
             if (a.kind == Value.NOTHING) {
-                return Value.of(Value.LOGICAL, Value.UNKNOWN);
+                return new Value(Value.LOGICAL, Value.UNKNOWN);
             }
-            return a.kind == Value.LOGICAL ? Value.of(Value.LOGICAL, 2 - a.bits) : nothing;
+            return a.kind == Value.LOGICAL ? new Value(Value.LOGICAL, 2 - a.bits) : nothing;
         }
 
         Value negated(Value a) {
             if (a.kind == Value.INTEGER) {
                 return integer(-a.bits);
             }
-            return a.kind == Value.REAL ? Value.of(Value.REAL, Reals.negative(a.bits)) : nothing;
+            return a.kind == Value.REAL ? new Value(Value.REAL, Reals.negative(a.bits)) : nothing;
         }
 
         Value compared(int sign, Value a, Value b) {
             if (a.kind == Value.NOTHING || b.kind == Value.NOTHING) {
-                return Value.of(Value.LOGICAL, Value.UNKNOWN);
+                return new Value(Value.LOGICAL, Value.UNKNOWN);
             }
             if (sign == Tokens.IN) {
-                return b.kind == Value.AGGREGATE ? Value.truth(isIn(a.kind, a.bits, b)) : nothing;
+                return b.kind == Value.AGGREGATE ? truth(isIn(a.kind, a.bits, b)) : nothing;
             }
             if (a.kind != b.kind && !(a.isNumber() && b.isNumber())) {
                 return nothing;
@@ -3047,10 +3104,10 @@ public final class ExpressHouse {
                 return ordered(sign, a, b);
             }
             if (a.kind == Value.LOGICAL && (a.bits == Value.UNKNOWN || b.bits == Value.UNKNOWN)) {
-                return Value.of(Value.LOGICAL, Value.UNKNOWN);
+                return new Value(Value.LOGICAL, Value.UNKNOWN);
             }
             boolean same = sign == Tokens.SAME && a.kind == Value.INSTANCE ? a.bits == b.bits : people.alike(a, b);
-            return Value.truth(same == (sign != Tokens.UNEQUAL));
+            return truth(same == (sign != Tokens.UNEQUAL));
         }
 
         /** Compares two values of one kind, or two numbers, by < <= > >=. */
@@ -3059,7 +3116,7 @@ public final class ExpressHouse {
             boolean greater = a.bits > b.bits;
             if (a.kind == Value.REAL || b.kind == Value.REAL) {
                 if (a.kind == Value.REAL && Reals.isNan(a.bits) || b.kind == Value.REAL && Reals.isNan(b.bits)) {
-                    return Value.truth(false);
+                    return truth(false);
                 }
                 double x = a.kind == Value.REAL ? Reals.toDouble(a.bits) : (double) a.bits;
                 double y = b.kind == Value.REAL ? Reals.toDouble(b.bits) : (double) b.bits;
@@ -3073,10 +3130,10 @@ public final class ExpressHouse {
                 return nothing;
             }
             switch (sign) {
-                case Tokens.LESS: return Value.truth(less);
-                case Tokens.LESS_EQUAL: return Value.truth(!greater);
-                case Tokens.GREATER: return Value.truth(greater);
-                default: return Value.truth(!less);
+                case Tokens.LESS: return truth(less);
+                case Tokens.LESS_EQUAL: return truth(!greater);
+                case Tokens.GREATER: return truth(greater);
+                default: return truth(!less);
             }
         }
 
@@ -3089,7 +3146,7 @@ public final class ExpressHouse {
                 return nothing;
             }
             int kind = aggregate.kindAt((int) at);
-            return kind == Value.NOTHING ? nothing : Value.of(kind, aggregate.bitsAt((int) at));
+            return kind == Value.NOTHING ? nothing : new Value(kind, aggregate.bitsAt((int) at));
         }
 
         /** An aggregate of a kind with a value put into a place; nothing if that is not possible. */
@@ -3098,15 +3155,15 @@ public final class ExpressHouse {
                 return nothing;
             }
             long place = index.bits - old.low;
-            int item = people.schema.kindCell(people.schema.resolved(kind), Schema.ITEM);
-            Value value = people.convertedForItem(given, item);
-            if (place < 0 || place >= old.cells.length || !people.isAccepted(people.schema.accepts(item), value.kind, value.bits)) {
+            int accepted = people.schema.kindCell(kind, Schema.ACCEPTED);
+            Value value = people.convertedScalar(given, kind);
+            if (place < 0 || place >= old.cells.length || !people.isAccepted(accepted, value.kind, value.bits)) {
                 return nothing;
             }
             int at = (int) place;
             if (value.kind == Value.NOTHING) {
                 return old.sort != Value.ARRAY ? nothing
-                    : Value.aggregate(old.sort, old.low, old.lane, old.holes | 1 << at, old.cells);
+                    : new Value(old.sort, old.low, old.lane, old.holes | 1 << at, old.cells);
             }
             if (old.lane != 0 && old.lane != value.kind) {
                 return nothing;
@@ -3118,7 +3175,7 @@ public final class ExpressHouse {
             }
             long[] cells = old.cells.clone();
             cells[at] = value.bits;
-            return Value.aggregate(old.sort, old.low, value.kind, old.holes & ~(1 << at), cells);
+            return new Value(old.sort, old.low, value.kind, old.holes & ~(1 << at), cells);
         }
 
         /** Answers a built-in function, by its number in Schema.BUILT_IN. */
@@ -3132,24 +3189,24 @@ public final class ExpressHouse {
                 case 5: return measure(a, a.cells.length);
                 case 6: return measure(a, a.low);
                 case 7: return measure(a, a.low + a.cells.length - 1);
-                case 8: return Value.truth(a.kind != Value.NOTHING);
+                case 8: return truth(a.kind != Value.NOTHING);
                 case 9: return a.kind == Value.INSTANCE ? people.allUsers((int) a.bits) : nothing;
-                case 10: return a.kind == Value.INTEGER ? Value.truth((a.bits & 1) == 1) : nothing;
+                case 10: return a.kind == Value.INTEGER ? truth((a.bits & 1) == 1) : nothing;
                 case 14: return a.kind == Value.NOTHING ? b : a;
                 default: return ofNumbers(function, a, b);
             }
         }
 
         private Value realOf(Value a, long bits) {
-            return a.kind == Value.REAL ? Value.of(Value.REAL, bits) : nothing;
+            return a.kind == Value.REAL ? new Value(Value.REAL, bits) : nothing;
         }
 
         private Value rounded(Value a, int direction) {
-            return a.isNumber() ? Value.of(Value.REAL, Reals.rounded(Reals.of(a), direction)) : nothing;
+            return a.isNumber() ? new Value(Value.REAL, Reals.rounded(Reals.of(a), direction)) : nothing;
         }
 
         private Value measure(Value a, int number) {
-            return a.kind == Value.AGGREGATE ? Value.of(Value.INTEGER, number) : nothing;
+            return a.kind == Value.AGGREGATE ? new Value(Value.INTEGER, number) : nothing;
         }
 
         private Value ofNumbers(int function, Value a, Value b) {
@@ -3159,13 +3216,13 @@ public final class ExpressHouse {
             long x = Reals.of(a);
             long y = Reals.of(b);
             if (function == 11) {
-                return Value.of(Value.REAL, Reals.signed(x, y));
+                return new Value(Value.REAL, Reals.signed(x, y));
             }
             boolean least = function == 12;
             if (a.kind == Value.INTEGER && b.kind == Value.INTEGER) {
-                return Value.of(Value.INTEGER, least ? Math.min(a.bits, b.bits) : Math.max(a.bits, b.bits));
+                return new Value(Value.INTEGER, least ? Math.min(a.bits, b.bits) : Math.max(a.bits, b.bits));
             }
-            return Value.of(Value.REAL, Reals.extreme(x, y, least ? -1 : 1));
+            return new Value(Value.REAL, Reals.extreme(x, y, least ? -1 : 1));
         }
     }
 
@@ -3288,17 +3345,20 @@ public final class ExpressHouse {
             at = start;
         }
 
+        /** Closes the frame with a result, if that fits what the frame is opened for. */
         private void closeFrame(Value result) {
-            int frame = frames - 1;
-            if (frame < 0) {
-                return;
+            int kind = frames > 0 ? results[frames - 1] : NONE;
+            Value value = kind < 0 ? result : people.converted(result, kind);
+            endFrame(kind < 0 || people.fits(value, kind) ? value : nothing);
+        }
+
+        private void endFrame(Value result) {
+            if (frames > 0) {
+                frames--;
+                top = floors[frames];
+                at = returns[frames];
+                push(result);
             }
-            Value value = results[frame] < 0 ? result : people.converted(result, results[frame]);
-            boolean fits = results[frame] < 0 || people.fits(value, results[frame]);
-            frames = frame;
-            top = floors[frame];
-            at = returns[frame];
-            push(fits ? value : nothing);
         }
 
         /** Where a slot of the open frame is; always an index of the tables of slots. */
@@ -3312,21 +3372,21 @@ public final class ExpressHouse {
                     step(fetch());
                     break;
                 case INTEGER:
-                    push(Value.of(Value.INTEGER, fetch()));
+                    push(new Value(Value.INTEGER, fetch()));
                     break;
                 case REAL:
                     long upper = (long) fetch() << 32;
-                    push(Value.of(Value.REAL, upper | fetch() & 0xffffffffL));
+                    push(new Value(Value.REAL, upper | fetch() & 0xffffffffL));
                     break;
                 case LOGICAL:
-                    push(Value.of(Value.LOGICAL, fetch()));
+                    push(new Value(Value.LOGICAL, fetch()));
                     break;
                 case ITEM:
-                    push(Value.of(Value.ITEM, fetch()));
+                    push(new Value(Value.ITEM, fetch()));
                     break;
                 case INSTANCE:
                     int x = fetch();
-                    push(people.exists(x) ? Value.of(Value.INSTANCE, x) : nothing);
+                    push(people.exists(x) ? new Value(Value.INSTANCE, x) : nothing);
                     break;
                 case ENTITY:
                     push(people.extent(fetch()));
@@ -3366,23 +3426,23 @@ public final class ExpressHouse {
                     Value index = pop();
                     push(operators.placeOf(pop(), index));
                     break;
-                default:
+                case LOGIC:
                     int sign = fetch();
                     Value right = pop();
-                    operateOnTwo(word, sign, pop(), right);
+                    push(operators.logic(sign, pop(), right));
                     break;
-            }
-        }
-
-        private void operateOnTwo(int word, int sign, Value a, Value b) {
-            if (word == LOGIC) {
-                push(operators.logic(sign, a, b));
-            } else if (word == COMPARE) {
-                push(operators.compared(sign, a, b));
-            } else if (a.kind == Value.AGGREGATE && b.kind == Value.AGGREGATE) {
-                push(operators.places(sign, a, b));
-            } else {
-                push(operators.numbers(sign, a, b));
+                case COMPARE:
+                    sign = fetch();
+                    right = pop();
+                    push(operators.compared(sign, pop(), right));
+                    break;
+                default:
+                    sign = fetch();
+                    right = pop();
+                    Value left = pop();
+                    boolean aggregates = left.kind == Value.AGGREGATE && right.kind == Value.AGGREGATE;
+                    push(aggregates ? operators.places(sign, left, right) : operators.numbers(sign, left, right));
+                    break;
             }
         }
 
@@ -3425,7 +3485,7 @@ public final class ExpressHouse {
                 }
             }
             top = Math.max(0, top - 2 * given);
-            push(sound ? Value.aggregate(Value.LIST, 1, lane, 0, Arrays.copyOf(cells, count)) : nothing);
+            push(sound ? new Value(Value.LIST, 1, lane, 0, Arrays.copyOf(cells, count)) : nothing);
         }
 
         private void lead(int word) {
@@ -3461,7 +3521,7 @@ public final class ExpressHouse {
                     closeFrame(pop());
                     break;
                 case LEAVE:
-                    closeFrame(nothing);
+                    endFrame(nothing);
                     break;
                 default:
                     repeat(word, slotAt(fetch()));
@@ -3511,7 +3571,7 @@ public final class ExpressHouse {
             int i = aggregate.filledFrom(positions[slot]);
             if (i < aggregate.cells.length) {
                 positions[slot] = i + 1;
-                locals[slot] = Value.of(aggregate.lane, aggregate.cells[i]);
+                locals[slot] = new Value(aggregate.lane, aggregate.cells[i]);
                 return;
             }
             long[] cells = new long[Integer.bitCount(ends[slot])];
@@ -3523,7 +3583,7 @@ public final class ExpressHouse {
                 }
             }
             int sort = aggregate.sort == Value.ARRAY ? Value.LIST : aggregate.sort;
-            push(Value.aggregate(sort, 1, aggregate.lane, 0, cells));
+            push(new Value(sort, 1, aggregate.lane, 0, cells));
             at = exit;
         }
 
@@ -3532,7 +3592,7 @@ public final class ExpressHouse {
             if (people.fits(value, kind)) {
                 locals[slot] = value;
             } else {
-                closeFrame(nothing);
+                endFrame(nothing);
             }
         }
 
@@ -3542,7 +3602,7 @@ public final class ExpressHouse {
             if (changed.kind == Value.AGGREGATE) {
                 locals[slot] = changed;
             } else {
-                closeFrame(nothing);
+                endFrame(nothing);
             }
         }
 
@@ -3560,7 +3620,7 @@ public final class ExpressHouse {
                 at = exit;
             } else {
                 step(1);
-                locals[slot] = Value.of(Value.INTEGER, positions[slot]);
+                locals[slot] = new Value(Value.INTEGER, positions[slot]);
             }
         }
 
@@ -3570,7 +3630,7 @@ public final class ExpressHouse {
             Value from = pop();
             boolean whole = from.kind == Value.INTEGER && to.kind == Value.INTEGER && by.kind == Value.INTEGER;
             if (!whole || by.bits == 0) {
-                closeFrame(nothing);
+                endFrame(nothing);
                 return;
             }
             positions[slot] = (int) from.bits;
@@ -3644,15 +3704,15 @@ public final class ExpressHouse {
                     Value value = people.heldBy(x, a);
                     bounded &= value.kind != Value.NOTHING || cells[Schema.OPTIONAL] == 1;
                     bounded &= value.kind != Value.AGGREGATE || value.sort == Value.ARRAY
-                        || isWithin(value.cells.length, schema.resolved(cells[Schema.KIND]));
+                        || isWithin(value.cells.length, cells[Schema.KIND]);
                 }
             }
             return bounded;
         }
 
         private boolean isWithin(int number, int kind) {
-            int high = people.schema.kindCell(kind, Schema.HIGH);
-            return number >= people.schema.kindCell(kind, Schema.LOW) && (high < 0 || number <= high);
+            int high = people.schema.kindCell(kind, Schema.END_HIGH);
+            return number >= people.schema.kindCell(kind, Schema.END_LOW) && (high < 0 || number <= high);
         }
 
         int judgeUnique(int e) {
@@ -3692,9 +3752,12 @@ public final class ExpressHouse {
         int judgeEntity(int e) {
             clear();
             for (int x = 0; x < people.made; x++) {
-                if (people.isA(x, e)) {
-                    note(x, verdictAt(e, Value.of(Value.INSTANCE, x)));
+                int found = TRUE;
+                for (int i = 0; i < people.schema.wheres[e] && people.isA(x, e); i++) {
+                    Value value = machine.run(people.schema.startOfWhere(e, i), new Value(Value.INSTANCE, x));
+                    found = worse(found, verdictOf(value));
                 }
+                note(x, found);
             }
             return verdict;
         }
@@ -3704,8 +3767,11 @@ public final class ExpressHouse {
             for (int x = 0; x < people.made; x++) {
                 int found = TRUE;
                 for (int a = 0; a < people.schema.counts[Schema.ATTRIBUTES]; a++) {
-                    if (people.has(x, a) && isJust(a, t) && people.heldBy(x, a).kind != Value.NOTHING) {
-                        found = worse(found, verdictAt(Schema.TYPE_SITE + t, people.heldBy(x, a)));
+                    Value held = people.heldBy(x, a);
+                    boolean concerned = people.has(x, a) && isJust(a, t) && held.kind != Value.NOTHING;
+                    for (int i = 0; i < people.schema.wheres[Schema.TYPE_SITE + t] && concerned; i++) {
+                        Value value = machine.run(people.schema.startOfWhere(Schema.TYPE_SITE + t, i), held);
+                        found = worse(found, verdictOf(value));
                     }
                 }
                 note(x, found);
@@ -3722,24 +3788,24 @@ public final class ExpressHouse {
 
         int judgeText(int r) {
             clear();
-            note(NONE, verdictAt(Schema.RULE_SITE + r, people.nothing));
+            int found = TRUE;
+            for (int i = 0; i < people.schema.wheres[Schema.RULE_SITE + r]; i++) {
+                Value value = machine.run(people.schema.startOfWhere(Schema.RULE_SITE + r, i), people.nothing);
+                found = worse(found, verdictOf(value));
+            }
+            note(NONE, found);
             return verdict;
         }
 
-        /** The verdict of the expressions of one "where". */
-        private int verdictAt(int site, Value self) {
-            int found = TRUE;
-            for (int i = 0; i < people.schema.wheres[site]; i++) {
-                Value value = machine.run(people.schema.whereStarts[site * Schema.WHERES_MOST + i], self);
-                int one = UNKNOWN;
-                if (machine.spent) {
-                    one = OPEN;
-                } else if (value.kind == Value.LOGICAL && value.bits != Value.UNKNOWN) {
-                    one = value.isTrue() ? TRUE : FALSE;
-                }
-                found = worse(found, one);
+        /** The verdict of an expression by the result of its run, which has just ended. */
+        private int verdictOf(Value result) {
+            if (machine.spent) {
+                return OPEN;
             }
-            return found;
+            if (result.kind != Value.LOGICAL || result.bits == Value.UNKNOWN) {
+                return UNKNOWN;
+            }
+            return result.isTrue() ? TRUE : FALSE;
         }
     }
 
@@ -3787,24 +3853,29 @@ public final class ExpressHouse {
             return NONE;
         }
 
-        int load(byte[] bytes, int size) {
+        void start(byte[] bytes, int size) {
             text = bytes;
             length = size;
             fault = 0;
             entries = 0;
-            for (int reading = 1; reading <= 2 && fault == 0; reading++) {
-                sensing = reading == 2;
-                at = 0;
-                entry = 0;
-                for (int i = 0; i < entries && sensing; i++) {
-                    people.announce(people.made + i, combinations[i]);
-                }
-                blanks();
-                for (int n = 0; n < length && at < length && fault == 0; n++) {
-                    entryPart();
-                    entry++;
-                }
+        }
+
+        void startReading(boolean forSense) {
+            sensing = forSense;
+            at = 0;
+            entry = 0;
+            for (int i = 0; i < entries && sensing; i++) {
+                people.announce(people.made + i, combinations[i]);
             }
+            blanks();
+        }
+
+        boolean goesOn() {
+            return fault == 0 && at < length;
+        }
+
+        /** Takes up the instances of the file; returns how many they are, or its fault. */
+        int finish() {
             if (fault != 0) {
                 return -10 - faultPlace;
             }
@@ -3851,7 +3922,7 @@ public final class ExpressHouse {
             blanks();
         }
 
-        private void entryPart() {
+        void entryPart() {
             int place = at;
             int n = reference();
             if (sensing) {
@@ -3872,6 +3943,7 @@ public final class ExpressHouse {
                 form(true);
             }
             sign(';');
+            entry++;
         }
 
         /** Reads "#" and a number. */
@@ -3971,7 +4043,8 @@ public final class ExpressHouse {
             if (peek() != '(') {
                 scalar();
                 if (sensing && fault == 0 && a >= 0) {
-                    holdOrFail(place, a, kind == Value.NOTHING ? people.nothing : Value.of(kind, bits));
+                    int wanted = people.schema.attributes[a][Schema.KIND];
+                    holdOrFail(place, a, people.convertedScalar(new Value(kind, bits), wanted), wanted);
                 }
                 return;
             }
@@ -4005,14 +4078,14 @@ public final class ExpressHouse {
         }
 
         private void holdAggregate(int place, int a, int lane, int holes, long[] values) {
-            int end = people.schema.resolved(people.schema.attributes[a][Schema.KIND]);
-            int sort = people.schema.kindCell(end, Schema.AGGREGATE);
+            int wanted = people.schema.attributes[a][Schema.KIND];
+            int sort = people.schema.kindCell(wanted, Schema.END_AGGREGATE);
             if (sort < 0 || holes != 0 && sort != Value.ARRAY || sort == Value.SET && isRepeating(lane, values)) {
                 fail(WRONG_SENSE, place);
                 return;
             }
-            int low = sort == Value.ARRAY ? people.schema.kindCell(end, Schema.LOW) : 1;
-            holdOrFail(place, a, Value.aggregate(sort, low, lane, holes, values));
+            int low = sort == Value.ARRAY ? people.schema.kindCell(wanted, Schema.END_LOW) : 1;
+            holdOrFail(place, a, new Value(sort, low, lane, holes, values), wanted);
         }
 
         private boolean isRepeating(int lane, long[] values) {
@@ -4026,11 +4099,9 @@ public final class ExpressHouse {
             return repeating;
         }
 
-        private void holdOrFail(int place, int a, Value value) {
-            int wanted = people.schema.attributes[a][Schema.KIND];
-            Value converted = people.converted(value, wanted);
-            if (people.fits(converted, wanted)) {
-                people.hold(people.made + entry, a, converted);
+        private void holdOrFail(int place, int a, Value value, int wanted) {
+            if (people.fits(value, wanted)) {
+                people.hold(people.made + entry, a, value);
             } else {
                 fail(WRONG_SENSE, place);
             }
@@ -4162,14 +4233,12 @@ public final class ExpressHouse {
             this.people = people;
         }
 
-        /** Writes all; returns the number of bytes, or FULL if they are too many. */
-        int fill() {
+        void start() {
             drafted = 0;
-            for (int x = 0; x < people.made; x++) {
-                if (people.exists(x)) {
-                    instance(x, people.rowOf(x));
-                }
-            }
+        }
+
+        /** Makes what was written the output; returns its number of bytes, or FULL if they are too many. */
+        int finish() {
             if (drafted > MOST) {
                 return FULL;
             }
@@ -4187,7 +4256,7 @@ public final class ExpressHouse {
             drafted++;
         }
 
-        private void instance(int x, int combination) {
+        void instance(int x, int combination) {
             add('#');
             number(x);
             add('=');
@@ -4213,7 +4282,7 @@ public final class ExpressHouse {
 
         /** Writes a form with the name of entity e and the attributes of some entities. */
         private void form(int x, int e, int set) {
-            name(people.schema.names[Schema.ENTITIES][e]);
+            word(people.schema.names[Schema.ENTITIES][e]);
             add('(');
             boolean first = true;
             for (int a = 0; a < people.schema.counts[Schema.ATTRIBUTES]; a++) {
@@ -4228,7 +4297,7 @@ public final class ExpressHouse {
             add(')');
         }
 
-        private void name(long code) {
+        private void word(long code) {
             int length = Tokens.lengthOf(code);
             for (int k = 0; k < length; k++) {
                 add(Tokens.byteOf(code, k));
@@ -4265,7 +4334,7 @@ public final class ExpressHouse {
                     break;
                 case Value.ITEM:
                     add('.');
-                    name(bits < 0 || bits >= 20 ? 0 : people.schema.names[Schema.ITEMS][(int) bits]);
+                    word(bits < 0 || bits >= 20 ? 0 : people.schema.names[Schema.ITEMS][(int) bits]);
                     add('.');
                     break;
                 case Value.INSTANCE:
@@ -4315,9 +4384,14 @@ public final class ExpressHouse {
             if (minus) {
                 add('-');
             }
-            number(digits / scale);
-            add('.');
-            for (long unit = scale / 10; unit > 0; unit = unit / 10) {
+            long unit = scale;
+            for (int i = 0; i < 18 && unit <= digits / 10; i++) {
+                unit = unit * 10;
+            }
+            for (; unit > 0; unit = unit / 10) {
+                if (unit == scale / 10) {
+                    add('.');
+                }
                 add((int) ('0' + digits / unit % 10));
             }
         }
