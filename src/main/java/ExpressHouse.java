@@ -592,13 +592,14 @@ public final class ExpressHouse {
             total = 0;
             fault = 0;
             softFault = 0;
+            int end = Math.min(length, text.length);
             int p = 0;
             boolean sound = true;
-            for (int n = 0; n < length && p < length && sound; n++) {
+            for (int n = 0; n < end && p < end && sound; n++) {
                 if (isBlank(text[p])) {
                     p++;
                 } else {
-                    int size = scan(text, length, p);
+                    int size = scan(text, end, p);
                     sound = size > 0;
                     p += size;
                 }
@@ -877,9 +878,10 @@ public final class ExpressHouse {
             if (exponent < 1023 || exponent > 1054) {
                 return whole == 0 && (b & SIZE) == 0;
             }
-            long shifted = ((b & FRACTION) | 1L << 52) << exponent - 1023;
+            long digits = (b & FRACTION) | 1L << 52;
+            int behind = 1075 - exponent;
             long size = whole < 0 ? -whole : whole;
-            return size << 52 == shifted && whole < 0 == b < 0;
+            return digits >> behind == size && size << behind == digits && whole < 0 == b < 0;
         }
 
         static long ofDecimal(long digits, long scale) {
@@ -1071,7 +1073,7 @@ public final class ExpressHouse {
         final int[][] functions = new int[6][LOCAL_KINDS + LOCALS_MOST];
         final int[] wheres = new int[SITES];
         final int[] whereStarts = new int[SITES * WHERES_MOST];
-        final int[] code = new int[16384];
+        final int[] code = new int[12288];
         int codeEnd;
         int nodes;
         private final int[] combinationCounts = new int[12];
@@ -2670,7 +2672,7 @@ public final class ExpressHouse {
             }
             boolean found = false;
             for (int i = 0; i < value.cells.length && value.lane == Value.INSTANCE; i++) {
-                found |= value.cells[i] == x && !value.isHole(i);
+                found = found || value.cells[i] == x && !value.isHole(i);
             }
             return found;
         }
@@ -2788,7 +2790,7 @@ public final class ExpressHouse {
                         finer[x] = y;
                     }
                 }
-                parted |= finer[x] != likenesses[x];
+                parted = parted || finer[x] != likenesses[x];
             }
             int[] coarser = likenesses;
             likenesses = finer;
@@ -2902,7 +2904,9 @@ public final class ExpressHouse {
             int high = cells[Schema.END_HIGH];
             int size = value.cells.length;
             boolean fits = value.kind == Value.AGGREGATE && value.sort == sort;
-            fits &= sort != Value.ARRAY || value.low == low && (high < 0 || size == high - low + 1);
+            if (sort == Value.ARRAY) {
+                fits = fits && value.low == low && (high < 0 || size == high - low + 1);
+            }
             for (int i = 0; i < size && fits; i++) {
                 fits = value.isHole(i) || isAccepted(cells[Schema.ACCEPTED], value.lane, value.cells[i]);
             }
@@ -3473,7 +3477,7 @@ public final class ExpressHouse {
             for (int i = given - 1; i >= 0; i--) {
                 Value number = below(2 * i);
                 Value value = below(2 * i + 1);
-                sound &= number.kind == Value.INTEGER && number.bits >= 0;
+                sound = sound && number.kind == Value.INTEGER && number.bits >= 0;
                 if (sound && number.bits > 0) {
                     sound = value.kind != Value.NOTHING && value.kind != Value.AGGREGATE
                         && (lane == 0 || lane == value.kind) && number.bits <= cells.length - count;
@@ -3531,6 +3535,10 @@ public final class ExpressHouse {
 
         /** Calls a function with the arguments on top, if each one fits its parameter. */
         private void call(int f) {
+            if (f < 0 || f >= people.schema.functions.length) {
+                push(nothing);
+                return;
+            }
             int[] cells = people.schema.functions[f];
             int given = cells[Schema.PARAMETERS];
             boolean fit = true;
@@ -3539,7 +3547,7 @@ public final class ExpressHouse {
                 int kind = cells[Schema.LOCAL_KINDS + i];
                 if (place >= 0 && place < stack.length) {
                     stack[place] = people.converted(stack[place], kind);
-                    fit &= people.fits(stack[place], kind);
+                    fit = fit && people.fits(stack[place], kind);
                 }
             }
             top = Math.max(0, top - given);
@@ -3694,20 +3702,28 @@ public final class ExpressHouse {
         }
 
         private boolean isBounded(int x, int e) {
-            Schema schema = people.schema;
-            boolean bounded = true;
-            for (int a = 0; a < schema.counts[Schema.ATTRIBUTES]; a++) {
-                int[] cells = schema.attributes[a];
-                if (cells[Schema.ENTITY] == e && cells[Schema.SORT] == Schema.INVERSE_SORT) {
-                    bounded &= isWithin(people.countUsers(x, cells[Schema.FOR]), cells[Schema.KIND]);
-                } else if (cells[Schema.ENTITY] == e && cells[Schema.SORT] == Schema.EXPLICIT_SORT) {
-                    Value value = people.heldBy(x, a);
-                    bounded &= value.kind != Value.NOTHING || cells[Schema.OPTIONAL] == 1;
-                    bounded &= value.kind != Value.AGGREGATE || value.sort == Value.ARRAY
-                        || isWithin(value.cells.length, cells[Schema.KIND]);
+            for (int a = 0; a < people.schema.counts[Schema.ATTRIBUTES]; a++) {
+                int[] cells = people.schema.attributes[a];
+                int sort = cells[Schema.SORT];
+                if (cells[Schema.ENTITY] == e && sort == Schema.INVERSE_SORT
+                    && !isWithin(people.countUsers(x, cells[Schema.FOR]), cells[Schema.KIND])) {
+                    return false;
+                }
+                if (cells[Schema.ENTITY] == e && sort == Schema.EXPLICIT_SORT
+                    && !isHeldWithin(people.heldBy(x, a), cells)) {
+                    return false;
                 }
             }
-            return bounded;
+            return true;
+        }
+
+        /** Whether an explicit attribute, given by its cells, may hold a value. */
+        private boolean isHeldWithin(Value value, int[] cells) {
+            if (value.kind == Value.NOTHING) {
+                return cells[Schema.OPTIONAL] == 1;
+            }
+            return value.kind != Value.AGGREGATE || value.sort == Value.ARRAY
+                || isWithin(value.cells.length, cells[Schema.KIND]);
         }
 
         private boolean isWithin(int number, int kind) {
@@ -4016,7 +4032,7 @@ public final class ExpressHouse {
             if (sensing && !fine) {
                 fail(WRONG_SENSE, place);
             } else if (entry < ENTRIES_MOST && !sensing) {
-                sound[entry] &= fine;
+                sound[entry] = sound[entry] && fine;
                 combinations[entry] |= all;
             }
             sign('(');
@@ -4027,7 +4043,7 @@ public final class ExpressHouse {
                     sign(',');
                 }
                 valuePart(a);
-                tooMany |= a < 0;
+                tooMany = tooMany || a < 0;
                 a = people.schema.explicitFrom(a + 1, a < 0 ? 0 : all);
                 blanks();
             }
@@ -4058,7 +4074,7 @@ public final class ExpressHouse {
                     sign(',');
                 }
                 scalar();
-                mixed |= kind != Value.NOTHING && lane != 0 && lane != kind;
+                mixed = mixed || kind != Value.NOTHING && lane != 0 && lane != kind;
                 lane = kind == Value.NOTHING ? lane : kind;
                 if (count < cells.length) {
                     cells[count] = bits;
@@ -4092,8 +4108,9 @@ public final class ExpressHouse {
             boolean repeating = false;
             for (int i = 0; i < values.length; i++) {
                 for (int j = 0; j < i; j++) {
-                    repeating |= lane == Value.INSTANCE ? values[i] == values[j]
+                    boolean same = lane == Value.INSTANCE ? values[i] == values[j]
                         : people.cellsAlike(lane, values[i], lane, values[j]);
+                    repeating = repeating || same;
                 }
             }
             return repeating;
