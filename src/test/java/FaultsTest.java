@@ -124,6 +124,7 @@ public final class FaultsTest {
         schemaIs("entity e over a and (b andor a);end;entity a under e;end;entity b under e;end;end;", "4@29");
         schemaIs("entity e over a and (b andor oneof(c));end;entity a under e;end;entity b under e;end;"
             + "entity c under e;end;end;", "fine");
+        schemaIs("entity a under e;end;entity e over oneof(a,a);end;end;", "4@43");
         schemaIs("entity e;inverse i:t for a[0:1];end;type t=real;end;end;", "4@19");
         schemaIs("entity e;inverse i:f for b[0:1];end;entity f;a:e;end;end;", "4@25");
         schemaIs("entity e;inverse i:f for a[0:1];end;entity f under g;end;entity g;a:e;end;end;", "4@25");

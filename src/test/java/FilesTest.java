@@ -9,6 +9,7 @@ public final class FilesTest {
     public static void main(String[] args) {
         writing();
         reals();
+        operations();
         fullOutput();
         reading();
         told();
@@ -99,6 +100,38 @@ public final class FilesTest {
         realIs("%bfe0000000000000", "-0.5");
         realIs("%3fb999999999999a", "0.1");
         realIs("%3fb999999999999b", "%3fb999999999999b");
+    }
+
+    /** What an operation on the real of instance 0 gives, as it is written. */
+    private static void operationIs(String given, String exp, String want) {
+        c.house = new ExpressHouse();
+        c.schema("schema s;entity a;r:real;end;end;");
+        c.read("#1=a(" + given + ");");
+        c.set(0, 0, exp.replaceAll("\\br\\b", "#0.r"));
+        c.house.write();
+        Checks.due(exp + " with " + given, c.output(), "#0=a(" + want + ");");
+    }
+
+    private static void operations() {
+        operationIs("%0010000000000000", "r*0.5", "%0008000000000000");
+        operationIs("%0008000000000000", "r*2", "%0010000000000000");
+        operationIs("%0010000000000000", "r*1", "%0010000000000000");
+        operationIs("%0020000000000000", "r*0.5", "%0010000000000000");
+        operationIs("%0020000000000000", "r*1", "%0020000000000000");
+        operationIs("%0000000000000001", "r+r", "%0000000000000002");
+        operationIs("%0000000000000001", "r*0.5", "0.0");
+        operationIs("%8000000000000001", "r*0.5", "-0.0");
+        operationIs("%0000000000000003", "r/2", "%0000000000000002");
+        operationIs("%7fefffffffffffff", "r*1", "%7fefffffffffffff");
+        operationIs("%7fefffffffffffff", "r+r", "%7ff0000000000000");
+        operationIs("%ffefffffffffffff", "r*2", "%fff0000000000000");
+        operationIs("%7fefffffffffffff", "r/r", "1.0");
+        operationIs("%7fe0000000000000", "r-r", "0.0");
+        operationIs("%4330000000000001", "floor(r)", "%4330000000000001");
+        operationIs("%432fffffffffffff", "ceil(r)", "%4330000000000000");
+        operationIs("%c32fffffffffffff", "floor(r)", "%c330000000000000");
+        operationIs("%3fdfffffffffffff", "floor(r+0.5)", "1.0");
+        operationIs("%fff0000000000000", "abs(r)", "%7ff0000000000000");
     }
 
     private static void fullOutput() {
@@ -200,6 +233,8 @@ public final class FilesTest {
         fileIs("#1=e($,((1)),$,$,$);", "1@8");
         fileIs("#1=e($,(1,$,$,$);", "1@16");
         fileIs("#1=e($,(,1),$,$,$);", "1@8");
+        fileIs("#1=e($,(1 2),$,$,$);", "1@10");
+        fileIs("#1=e($,(1,),$,$,$);", "1@10");
     }
 
     private static void numbers() {

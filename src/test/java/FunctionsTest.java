@@ -61,6 +61,10 @@ public final class FunctionsTest {
         is("f([])", "?");
         function("(x:list[0:?] of real):list[0:?] of real;x[1]=5;return x;");
         is("f([1.5])", "L1:2[5.0]");
+        c.given("type n=integer;end;type re=real;end;function f(x:list[0:?] of n):list[0:?] of n;x[1]=5;return x;end;"
+            + "function g(x:list[0:?] of re):list[0:?] of re;x[1]=5;return x;end;");
+        is("f([1])", "L1:1[5]");
+        is("g([1.5])", "L1:2[5.0]");
         function("(x:ints):ints;x[1]=5.5;return x;");
         is("f([1])", "?");
         function("(x:ints):ints;x[1]=?;return x;");

@@ -116,9 +116,15 @@ public final class RowsTest {
         c.work("[red]");
         c.house.take(1);
         putIs(1, 4, 0, 1, 1);
+        putIs(1, 4, 0, 0, 1);
+        rowIs(1, "L1:4[i0]");
+        putIs(1, 4, 0, 1, 1);
         rowIs(1, "L1:4[i1]");
         c.work("[#0]");
         c.house.take(1);
+        putIs(1, 5, 0, 1, 1);
+        putIs(1, 5, 0, 0, 1);
+        rowIs(1, "L1:5[#0]");
         putIs(1, 5, 0, 2, 1);
         rowIs(1, "L1:5[#2]");
         c.house.keep(0);

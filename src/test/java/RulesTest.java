@@ -5,6 +5,7 @@ public final class RulesTest {
     public static void main(String[] args) {
         numbers();
         bounds();
+        noPlaces();
         uniqueness();
         wheres();
         types();
@@ -87,6 +88,19 @@ public final class RulesTest {
         c.house.drop(5);
         judged(0, "1");
         judged(6, "1");
+    }
+
+    private static void noPlaces() {
+        c.given("entity a;x:list[0:0] of integer;inverse u:b for p[0:0];end;entity b;p:a;end;");
+        c.house.make(1);
+        c.set(0, 0, "[]");
+        judged(0, "1");
+        c.set(0, 0, "[1]");
+        judged(0, "0 0=0");
+        c.set(0, 0, "[]");
+        c.house.make(2);
+        c.set(1, 2, "#0");
+        judged(0, "0 0=0");
     }
 
     private static void uniqueness() {
