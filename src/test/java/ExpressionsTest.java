@@ -209,6 +209,10 @@ public final class ExpressionsTest {
         is("max(3,2.5)", "3.0");
         is("min(0.0,-0.0)", "-0.0");
         is("max(-0.0,0)", "0.0");
+        is("min(0.0,5.0)", "0.0");
+        is("max(0.0,5.0)", "5.0");
+        is("max(-5.0,0)", "0.0");
+        is("min(-5.0,-0.0)", "-5.0");
         is("max(1,0/0)", "NaN");
         is("min(0/0,1)", "NaN");
         is("min(red,1)", "?");

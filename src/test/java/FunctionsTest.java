@@ -32,6 +32,8 @@ public final class FunctionsTest {
         function("(x:real):real;return x;");
         is("f(1)", "1.0");
         is("f(f(f(2)))+1", "3.0");
+        c.given("function f():real;return 1;end;");
+        is("f()", "1.0");
         function("(x:real):integer;return x;");
         is("f(1)", "?");
         function("(x:integer):real;return x+1;");
@@ -156,6 +158,15 @@ public final class FunctionsTest {
     }
 
     private static void frames() {
+        function("(x:integer):integer;var s:integer;s=0;repeat i=1 to 3;if i=2 then if x>0 then s=s+f(x-1);end;end;"
+            + "s=s*10+i;end;return s;");
+        is("f(0)", "123");
+        is("f(1)", "12423");
+        is("f(3)", "124242423");
+        function("(x:integer):integer;if x=0 then return 1;end;"
+            + "return sizeof(query(q<*[x,x+1]|(q=x) and (f(x-1)=1)));");
+        is("f(0)", "1");
+        is("f(4)", "1");
         c.given("entity a;x:integer;p:a;derive d:integer=f(x-1);e:integer=p.e;end;"
             + "function f(n:integer):integer;if n<=0 then return 0;end;return f(n-1)+1;end;");
         is("f(6)", "6");

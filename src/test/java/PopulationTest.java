@@ -219,6 +219,7 @@ public final class PopulationTest {
         c.set(0, 3, "[#1,#0]");
         c.set(0, 4, "[#2,#1]");
         c.set(2, 0, "#0");
+        c.set(2, 1, "[#2,#1,#0]");
         c.work("[#1,#1]");
         c.house.take(2);
         c.work("#1");
@@ -226,6 +227,7 @@ public final class PopulationTest {
         Checks.due("drop", c.house.drop(1), 1);
         Checks.due("an attribute", c.got(0, 0), "?");
         Checks.due("an array", c.got(0, 1), "A0:5[?,#2,?]");
+        Checks.due("another array", c.got(2, 1), "A0:5[#2,?,#0]");
         Checks.due("a list", c.got(0, 2), "L1:5[#2]");
         Checks.due("a bag", c.got(0, 3), "B1:5[#0]");
         Checks.due("a set", c.got(0, 4), "S1:5[#2]");

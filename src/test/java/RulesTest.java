@@ -175,7 +175,7 @@ public final class RulesTest {
 
     private static void types() {
         c.given("type n=integer;where self>0;self<9;end;type m=n;where false;end;type e=enum(red,blue);where self=red;end;"
-            + "entity a;x:n;y:n;l:list[0:?] of n;k:e;end;entity b;w:n;end;entity d;v:m;end;");
+            + "entity a;x:n;y:n;l:list[0:?] of n;k:e;end;entity b;w:n;end;entity d;v:m;z:array[0:0] of n;end;");
         c.house.make(1);
         c.house.make(2);
         c.house.make(4);
@@ -188,6 +188,7 @@ public final class RulesTest {
         c.set(1, 4, "0");
         judged(9, "0 0=0 1=0");
         c.set(2, 5, "0");
+        c.set(2, 6, "[0]");
         judged(9, "0 0=0 1=0");
         judged(10, "0 2=0");
         c.set(0, 1, "8");
