@@ -3246,7 +3246,8 @@ public final class ExpressHouse {
         private final Population people;
         private final Operators operators;
         private final Value nothing;
-        private final Value[] stack = new Value[10240];
+        /** A run has at most 1000 steps, and a step pushes at most two values. */
+        private final Value[] stack = new Value[4096];
         private int top;
         private final Value[] locals = new Value[FRAMES_MOST * SLOTS];
         /** For a query its aggregate; its next place and its chosen ones, or a repeat's whole, end and step. */

@@ -48,6 +48,13 @@ public final class ExpressionsTest {
         is("1+?", "?");
         is("-true", "?");
         is("-(3)", "-3");
+        is("1+-2", "-1");
+        is("1--2", "3");
+        is("2*-3", "-6");
+        is("-2*3", "-6");
+        is("1<-2", "f");
+        is("not true=false", "t");
+        is("1.5.i", "?");
         is("-1.5", "-1.5");
         is("red+1", "?");
     }
