@@ -17,7 +17,7 @@ public final class ExpressHouse {
     private final SchemaReader schemas = new SchemaReader(tokens, expressions);
     private final Machine machine = new Machine(people);
     private final Judge referee = new Judge(people, machine);
-    private final FileReader source = new FileReader(people);
+    private final FileReader source = new FileReader(people, tokens);
     private final FileWriter output = new FileWriter(people);
     private Value hand = new Value(Value.NOTHING, 0);
     private final Value[] slots = new Value[KEPT];
@@ -652,14 +652,18 @@ public final class ExpressHouse {
             if (size > NAME_MOST) {
                 return 0;
             }
-            int kind = NAME;
+            add(kindOfWord(code), p, code);
+            return size;
+        }
+
+        /** NAME, or which keyword the word is. */
+        int kindOfWord(long code) {
             for (int w = 0; w < words.length; w++) {
                 if (words[w] == code) {
-                    kind = SCHEMA + w;
+                    return SCHEMA + w;
                 }
             }
-            add(kind, p, code);
-            return size;
+            return NAME;
         }
 
         private int scanNumber(byte[] text, int length, int p) {
@@ -3831,6 +3835,7 @@ public final class ExpressHouse {
         private static final int WRONG_FORM = 1, WRONG_SENSE = 2, ENTRIES_MOST = 440, DIGITS_MOST = 4;
 
         private final Population people;
+        private final Tokens tokens;
         private byte[] text = {};
         private int length;
         private int at;
@@ -3852,8 +3857,9 @@ public final class ExpressHouse {
         private int toldCount;
         private int toldFirst;
 
-        FileReader(Population people) {
+        FileReader(Population people, Tokens tokens) {
             this.people = people;
+            this.tokens = tokens;
         }
 
         void forget() {
@@ -4010,7 +4016,7 @@ public final class ExpressHouse {
             return NONE;
         }
 
-        /** Reads a name; whether it has an end is for others to see. */
+        /** Reads a name; whether it has an end is for others to see. A keyword could only go on as a longer word. */
         private long word() {
             long code = 0;
             if (!Tokens.isLetter(peek())) {
@@ -4019,6 +4025,9 @@ public final class ExpressHouse {
             for (int n = 0; n < Tokens.NAME_MOST && fault == 0 && Tokens.digitOf(peek()) > 0; n++) {
                 code = code * 38 + Tokens.digitOf(peek());
                 at++;
+            }
+            if (tokens.kindOfWord(code) != Tokens.NAME) {
+                fail(WRONG_FORM, at);
             }
             return code;
         }

@@ -14,6 +14,7 @@ public final class FilesTest {
         reading();
         told();
         forms();
+        keywords();
         numbers();
         senses();
         values();
@@ -235,6 +236,32 @@ public final class FilesTest {
         fileIs("#1=e($,(,1),$,$,$);", "1@8");
         fileIs("#1=e($,(1 2),$,$,$);", "1@10");
         fileIs("#1=e($,(1,),$,$,$);", "1@10");
+    }
+
+    /** Section 1: the keywords look like names, but are none. A file may still go on with a longer word. */
+    private static void keywords() {
+        String words = "schema type enum select entity abstract under over oneof andor optional derive inverse for unique where "
+            + "function var if then else repeat to by while escape skip return rule end integer real logical array list bag set "
+            + "of and or xor not in div mod query true false unknown self";
+        for (String word : words.split(" ")) {
+            int size = word.length();
+            fileIs("#1=" + word + "(1,.t.);", "1@" + (3 + size));
+            fileIs("#1=" + word + " (1,.t.);", "1@" + (3 + size));
+            fileIs("#1=" + word, "1@" + (3 + size));
+            fileIs("#1=" + word + "s(1,.t.);", "2@3");
+            fileIs("#1=(d(.t.)" + word + "());", "1@" + (10 + size));
+            fileIs("#1=b(1,1.0,." + word + ".);", "1@" + (12 + size));
+            fileIs("#1=b(1,1.0,." + word + "_.);", "2@11");
+            fileIs("#1=e($,(." + word + ".),$,$,$);", "1@" + (9 + size));
+        }
+        fileIs("#1=z(true);#2=list(1);", "1@5");
+        fileIs("#1=z();#2=list(1);", "1@14");
+        fileIs("#1=schem", "1@8");
+        fileIs("#1=schema s", "1@9");
+        for (String word : "abs min usedin nvl".split(" ")) {
+            fileIs("#1=" + word + "();", "2@3");
+            fileIs("#1=b(1,1.0,." + word + ".);", "2@11");
+        }
     }
 
     private static void numbers() {
