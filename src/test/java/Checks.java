@@ -122,6 +122,22 @@ final class Checks {
         return faultOf(schema(text));
     }
 
+    /** The fault of "schema s;" with these parts behind it in a new house, its place counted from the parts on. */
+    String partsFault(String parts) {
+        String fault = schemaFault("schema s;" + parts);
+        int at = fault.indexOf('@');
+        return at < 0 ? fault : fault.substring(0, at + 1) + (Integer.parseInt(fault.substring(at + 1)) - 9);
+    }
+
+    /** A part several times, with the number of each time (from 0) for "@". */
+    static String repeated(String part, int times) {
+        StringBuilder text = new StringBuilder();
+        for (int i = 0; i < times; i++) {
+            text.append(part.replace("@", "" + i));
+        }
+        return text.toString();
+    }
+
     String workFault(String exp) {
         return faultOf(work(exp));
     }

@@ -7,6 +7,10 @@ public final class CombinationsTest {
         reasons();
         supers();
         manyEntities();
+        firstReason();
+        rowOfTwelve();
+        abstractOnes();
+        supersOfSeveral();
         Checks.end("CombinationsTest");
     }
 
@@ -93,5 +97,122 @@ public final class CombinationsTest {
         allowed(4095, 0);
         allowed(4094, 2);
         allowed(4096, ExpressHouse.BAD);
+    }
+
+    /** "It is allowed unless one of these applies, of which the first is told" */
+    private static void firstReason() {
+        c.given("entity a abstract over oneof(b,d);end;entity b under a;end;entity d under a;end;entity e;end;entity f under e;end;");
+        allowed(0, 1);
+        allowed(2 | 8, 2);
+        allowed(1 | 16, 2);
+        allowed(1 | 2 | 4 | 16, 2);
+        allowed(1 | 8, 3);
+        allowed(1 | 2 | 4 | 8, 3);
+        allowed(1, 4);
+        allowed(1 | 2 | 4, 5);
+        allowed(1 | 2, 0);
+        allowed(8, 0);
+        allowed(8 | 16, 0);
+        allowed(16, 2);
+        c.given("entity a over oneof(b,d);end;entity b abstract under a;end;entity d under a;end;");
+        allowed(3, 4);
+        allowed(7, 4);
+        allowed(5, 0);
+        allowed(1, 0);
+        // an entity may stand before the one that it names
+        c.given("entity b under a;end;entity a;end;");
+        allowed(1, 2);
+        allowed(2, 0);
+        allowed(3, 0);
+        Checks.due("combinations(0)", c.house.combinations(0), 1);
+        Checks.due("combinations(1)", c.house.combinations(1), 2);
+    }
+
+    /** Twelve entities, each under the next one, in both orders: the only sets are those that reach up to the last one. */
+    private static void rowOfTwelve() {
+        StringBuilder up = new StringBuilder();
+        StringBuilder down = new StringBuilder("entity d11;end;");
+        for (int e = 0; e < 11; e++) {
+            up.append("entity u").append(e).append(" under u").append(e + 1).append(";end;");
+            down.append("entity d").append(10 - e).append(" under d").append(11 - e).append(";end;");
+        }
+        c.given(up + "entity u11;end;");
+        for (int set = 0; set < 4096; set++) {
+            Checks.due("up " + set, c.house.allowed(set), set == 0 ? 1 : reasonOfRow(set, true));
+        }
+        c.given(down.toString());
+        for (int set = 0; set < 4096; set++) {
+            Checks.due("down " + set, c.house.allowed(set), set == 0 ? 1 : reasonOfRow(set, false));
+        }
+        for (int e = 0; e < 12; e++) {
+            Checks.due("combinations(" + e + ")", c.house.combinations(e), 12 - e);
+        }
+        // a row of entities that are joined at both sides
+        c.given("entity a;end;entity b under a,d;end;entity d;end;entity e under d,f;end;entity f;end;entity g under f,h;end;entity h;end;");
+        allowed(127, 0);
+        allowed(127 & ~8, 3);
+        allowed(127 & ~2, 3);
+        allowed(127 & ~1, 2);
+        allowed(5, 3);
+        allowed(7, 0);
+    }
+
+    /** In a row of entities, one of a set misses the one that it names, unless the set reaches up to the last one. */
+    private static int reasonOfRow(int set, boolean up) {
+        for (int e = 0; e < 12; e++) {
+            int above = up ? e + 1 : e - 1;
+            if ((set >> e & 1) == 1 && above >= 0 && above < 12 && (set >> above & 1) == 0) {
+                return 2;
+            }
+        }
+        return 0;
+    }
+
+    /** "it contains an abstract entity, but none that names this one behind its "under"" */
+    private static void abstractOnes() {
+        c.given("entity a under b;end;entity b abstract;end;entity d abstract under b;end;entity e under d;end;entity f under b,d;end;");
+        allowed(2, 4);
+        allowed(3, 0);
+        allowed(6, 4);
+        allowed(7, 4);
+        allowed(14, 0);
+        allowed(22, 0);
+        allowed(18, 2);
+        c.given("entity a abstract under b;end;entity b;end;");
+        allowed(3, 4);
+        allowed(2, 0);
+        allowed(1, 2);
+    }
+
+    /** Several entities with "over", and what stands behind them in the text. */
+    private static void supersOfSeveral() {
+        c.given("entity a over oneof(d,e);derive x:integer=1;end;entity b over d and e;y:integer;end;entity d under a,b;end;"
+            + "entity e under a,b;end;entity f over g;where true;end;entity g under f,d;end;");
+        int ab = 3;
+        allowed(ab, 3);
+        allowed(ab | 4, 5);
+        allowed(ab | 12, 5);
+        allowed(1, 0);
+        allowed(2, 0);
+        allowed(16, 0);
+        allowed(ab | 4 | 48, 5);
+        c.given("entity a over oneof(d,e);derive x:integer=1;end;entity b over d andor e;y:integer;end;entity d under a,b;end;"
+            + "entity e under a,b;end;entity f over g;where true;end;entity g under f,d;end;");
+        allowed(ab | 4, 0);
+        allowed(ab | 8, 0);
+        allowed(ab | 12, 5);
+        allowed(ab | 4 | 48, 0);
+        allowed(ab | 4 | 16, 3);
+        c.house.make(ab | 4);
+        Checks.due("the code behind an over", c.value("#0.x"), "1");
+        // those that are named are at least one: others do not matter
+        c.given("entity a over oneof(b,d);end;entity b under a;end;entity d under a;end;entity e under a;end;");
+        allowed(1 | 8, 0);
+        allowed(1 | 2 | 8, 0);
+        allowed(1 | 2 | 4 | 8, 5);
+        c.given("entity a over b and d;end;entity b under a;end;entity d under a;end;entity e under a;end;");
+        allowed(1 | 8, 0);
+        allowed(1 | 2 | 8, 5);
+        allowed(1 | 2 | 4 | 8, 0);
     }
 }

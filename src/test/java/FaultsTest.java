@@ -17,10 +17,7 @@ public final class FaultsTest {
 
     /** The fault of "schema s;" + text, with the place counted from the text on. */
     private static void schemaIs(String text, String want) {
-        String got = c.schemaFault("schema s;" + text);
-        int at = got.indexOf('@');
-        String moved = at < 0 ? got : got.substring(0, at + 1) + (Integer.parseInt(got.substring(at + 1)) - 9);
-        Checks.due("schema s;" + text, moved, want);
+        Checks.due("schema s;" + text, c.partsFault(text), want);
     }
 
     private static void workIs(String text, String want) {
@@ -182,18 +179,10 @@ public final class FaultsTest {
         schemaIs("type t=list[30:2] of %", "5@12");
     }
 
-    private static String repeated(String part, int times) {
-        StringBuilder text = new StringBuilder();
-        for (int i = 0; i < times; i++) {
-            text.append(part.replace("@", "" + i));
-        }
-        return text.toString();
-    }
-
     private static void limit(String before, String part, int most, String behind, int inPart) {
-        schemaIs(before + repeated(part, most) + behind, "fine");
-        int place = (before + repeated(part, most)).length() + inPart;
-        schemaIs(before + repeated(part, most + 1) + behind, "5@" + place);
+        schemaIs(before + Checks.repeated(part, most) + behind, "fine");
+        int place = (before + Checks.repeated(part, most)).length() + inPart;
+        schemaIs(before + Checks.repeated(part, most + 1) + behind, "5@" + place);
     }
 
     private static void limitsOfNumbers() {
@@ -213,43 +202,43 @@ public final class FaultsTest {
         schemaIs("type t=list[0:25] of real;end;end;", "5@14");
         schemaIs("type t=list[3:2] of real;end;end;", "5@14");
         schemaIs("entity e;a:e;inverse i:e for a[2:1];end;end;", "5@33");
-        schemaIs("type t0=real;end;" + repeated("type u@=real;end;", 7) + "type t0=real;end;end;", "3@141");
+        schemaIs("type t0=real;end;" + Checks.repeated("type u@=real;end;", 7) + "type t0=real;end;end;", "3@141");
     }
 
     private static void limitsOfStatements() {
         limit("function f():real;", "skip;", 120, "end;end;", 0);
-        limit("function f():real;" + repeated("skip;", 60) + "end;function g():real;", "skip;", 60, "end;end;", 0);
-        String five = repeated("if 1 then ", 5);
-        schemaIs("function f():real;" + five + "skip;" + repeated("end;", 5) + "end;end;", "fine");
-        schemaIs("function f():real;" + five + "if 1 then end;" + repeated("end;", 5) + "end;end;", "fine");
-        schemaIs("function f():real;" + five + "if 1 then skip;end;" + repeated("end;", 5) + "end;end;", "5@78");
-        schemaIs("function f():real;" + repeated("while 1;", 5) + "repeat i=1 to 2;return 1;", "5@74");
+        limit("function f():real;" + Checks.repeated("skip;", 60) + "end;function g():real;", "skip;", 60, "end;end;", 0);
+        String five = Checks.repeated("if 1 then ", 5);
+        schemaIs("function f():real;" + five + "skip;" + Checks.repeated("end;", 5) + "end;end;", "fine");
+        schemaIs("function f():real;" + five + "if 1 then end;" + Checks.repeated("end;", 5) + "end;end;", "fine");
+        schemaIs("function f():real;" + five + "if 1 then skip;end;" + Checks.repeated("end;", 5) + "end;end;", "5@78");
+        schemaIs("function f():real;" + Checks.repeated("while 1;", 5) + "repeat i=1 to 2;return 1;", "5@74");
     }
 
     private static void limitsOfExpressions() {
-        workIs(repeated("1+", 300) + "x", "5@600");
-        workIs(repeated("1+", 299) + "1", "fine");
-        workIs(repeated("1+", 299) + "1+1", "5@600");
-        workIs("(" + repeated("1+", 299) + "1)", "fine");
-        schemaIs("rule r;where " + repeated("1+", 299) + "1;1;1;end;end;", "5@615");
-        schemaIs("rule r;where " + repeated("1+", 299) + "1;end;rule q;where 1;1;end;end;", "5@632");
-        workIs(repeated("(", 8) + "1" + repeated(")", 8), "fine");
-        workIs(repeated("(", 9) + "1" + repeated(")", 9), "5@8");
-        workIs(repeated("-(", 4) + "1" + repeated(")", 4), "fine");
-        workIs(repeated("-(", 4) + "-1" + repeated(")", 4), "5@8");
-        workIs(repeated("-(", 4) + "1-1" + repeated(")", 4), "fine");
-        workIs(repeated("[", 8) + repeated("]", 8), "fine");
-        workIs(repeated("[", 9) + repeated("]", 9), "5@8");
-        workIs(repeated("1[", 9) + "1" + repeated("]", 9), "5@17");
-        workIs(repeated("abs(", 9) + "1" + repeated(")", 9), "5@35");
-        workIs(repeated("query(q<*", 8) + "1" + repeated("|1)", 8), "fine");
-        workIs(repeated("query(q<*", 9) + "1" + repeated("|1)", 9), "5@72");
-        workIs(repeated("(", 7) + "-1[1]" + repeated(")", 7), "5@9");
-        workIs(repeated("(", 7) + "-1+1[1]" + repeated(")", 7), "fine");
-        workIs(repeated("(", 7) + "not true" + repeated(")", 7), "fine");
-        workIs(repeated("(", 8) + "not true" + repeated(")", 8), "5@8");
-        schemaIs("function f(x:list[0:?] of real):real;x[" + repeated("(", 8) + "1" + repeated(")", 8) + "]=1;end;end;", "fine");
-        schemaIs("entity s under e;end;entity e over " + repeated("(", 8) + "s" + repeated(")", 8) + ";end;end;", "fine");
-        schemaIs("entity s under e;end;entity e over " + repeated("oneof(", 8) + "(s" + repeated(")", 9) + ";end;end;", "5@83");
+        workIs(Checks.repeated("1+", 300) + "x", "5@600");
+        workIs(Checks.repeated("1+", 299) + "1", "fine");
+        workIs(Checks.repeated("1+", 299) + "1+1", "5@600");
+        workIs("(" + Checks.repeated("1+", 299) + "1)", "fine");
+        schemaIs("rule r;where " + Checks.repeated("1+", 299) + "1;1;1;end;end;", "5@615");
+        schemaIs("rule r;where " + Checks.repeated("1+", 299) + "1;end;rule q;where 1;1;end;end;", "5@632");
+        workIs(Checks.repeated("(", 8) + "1" + Checks.repeated(")", 8), "fine");
+        workIs(Checks.repeated("(", 9) + "1" + Checks.repeated(")", 9), "5@8");
+        workIs(Checks.repeated("-(", 4) + "1" + Checks.repeated(")", 4), "fine");
+        workIs(Checks.repeated("-(", 4) + "-1" + Checks.repeated(")", 4), "5@8");
+        workIs(Checks.repeated("-(", 4) + "1-1" + Checks.repeated(")", 4), "fine");
+        workIs(Checks.repeated("[", 8) + Checks.repeated("]", 8), "fine");
+        workIs(Checks.repeated("[", 9) + Checks.repeated("]", 9), "5@8");
+        workIs(Checks.repeated("1[", 9) + "1" + Checks.repeated("]", 9), "5@17");
+        workIs(Checks.repeated("abs(", 9) + "1" + Checks.repeated(")", 9), "5@35");
+        workIs(Checks.repeated("query(q<*", 8) + "1" + Checks.repeated("|1)", 8), "fine");
+        workIs(Checks.repeated("query(q<*", 9) + "1" + Checks.repeated("|1)", 9), "5@72");
+        workIs(Checks.repeated("(", 7) + "-1[1]" + Checks.repeated(")", 7), "5@9");
+        workIs(Checks.repeated("(", 7) + "-1+1[1]" + Checks.repeated(")", 7), "fine");
+        workIs(Checks.repeated("(", 7) + "not true" + Checks.repeated(")", 7), "fine");
+        workIs(Checks.repeated("(", 8) + "not true" + Checks.repeated(")", 8), "5@8");
+        schemaIs("function f(x:list[0:?] of real):real;x[" + Checks.repeated("(", 8) + "1" + Checks.repeated(")", 8) + "]=1;end;end;", "fine");
+        schemaIs("entity s under e;end;entity e over " + Checks.repeated("(", 8) + "s" + Checks.repeated(")", 8) + ";end;end;", "fine");
+        schemaIs("entity s under e;end;entity e over " + Checks.repeated("oneof(", 8) + "(s" + Checks.repeated(")", 9) + ";end;end;", "5@83");
     }
 }
