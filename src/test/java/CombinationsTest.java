@@ -101,7 +101,8 @@ public final class CombinationsTest {
 
     /** "It is allowed unless one of these applies, of which the first is told" */
     private static void firstReason() {
-        c.given("entity a abstract over oneof(b,d);end;entity b under a;end;entity d under a;end;entity e;end;entity f under e;end;");
+        c.given("entity a abstract over oneof(b,d);end;entity b under a;end;entity d under a;end;entity e;end;entity f under e;"
+            + "end;");
         allowed(0, 1);
         allowed(2 | 8, 2);
         allowed(1 | 16, 2);
@@ -148,7 +149,8 @@ public final class CombinationsTest {
             Checks.due("combinations(" + e + ")", c.house.combinations(e), 12 - e);
         }
         // a row of entities that are joined at both sides
-        c.given("entity a;end;entity b under a,d;end;entity d;end;entity e under d,f;end;entity f;end;entity g under f,h;end;entity h;end;");
+        c.given("entity a;end;entity b under a,d;end;entity d;end;entity e under d,f;end;entity f;end;entity g under f,h;end;"
+            + "entity h;end;");
         allowed(127, 0);
         allowed(127 & ~8, 3);
         allowed(127 & ~2, 3);
@@ -170,7 +172,8 @@ public final class CombinationsTest {
 
     /** "it contains an abstract entity, but none that names this one behind its "under"" */
     private static void abstractOnes() {
-        c.given("entity a under b;end;entity b abstract;end;entity d abstract under b;end;entity e under d;end;entity f under b,d;end;");
+        c.given("entity a under b;end;entity b abstract;end;entity d abstract under b;end;entity e under d;end;"
+            + "entity f under b,d;end;");
         allowed(2, 4);
         allowed(3, 0);
         allowed(6, 4);
@@ -205,6 +208,10 @@ public final class CombinationsTest {
         allowed(ab | 4 | 16, 3);
         c.house.make(ab | 4);
         Checks.due("the code behind an over", c.value("#0.x"), "1");
+        c.given("entity a over oneof(d,e);derive x:integer=5;end;entity b;end;entity d under a;end;entity e under a;end;");
+        allowed(5, 0);
+        allowed(9, 0);
+        allowed(13, 5);
         // those that are named are at least one: others do not matter
         c.given("entity a over oneof(b,d);end;entity b under a;end;entity d under a;end;entity e under a;end;");
         allowed(1 | 8, 0);

@@ -136,7 +136,8 @@ public final class EvaluationLimitsTest {
                 is("copysign(" + a + "," + b + ")", "" + Math.copySign(doubles[i], sign));
             }
         }
-        for (String exp : new String[] {"0/0", "-(0/0)", "0/0+1", "1/0-1/0", "abs(0/0)", "copysign(0/0,-1)", "copysign(-(0/0),-1)", "sign(0/0)"}) {
+        for (String exp : new String[] {"0/0", "-(0/0)", "0/0+1", "1/0-1/0", "abs(0/0)", "copysign(0/0,-1)", "copysign(-(0/0),-1)",
+            "sign(0/0)"}) {
             c.work(exp);
             Checks.due("bits of " + exp, c.house.bits(ExpressHouse.NONE), 0x7ff8000000000000L);
         }
@@ -163,7 +164,8 @@ public final class EvaluationLimitsTest {
     }
 
     private static void aggregatesOfOperators() {
-        given("entity e;a:array[1:?] of integer;l:list[0:?] of integer;b:bag[0:?] of integer;s:set[0:?] of integer;t:set[0:?] of integer;"
+        given("entity e;a:array[1:?] of integer;l:list[0:?] of integer;b:bag[0:?] of integer;s:set[0:?] of integer;"
+            + "t:set[0:?] of integer;"
             + "x:set[0:?] of e;end;", 1, 1, 1);
         for (int a = 0; a < 4; a++) {
             c.set(0, a, "[1,2]");
@@ -201,8 +203,10 @@ public final class EvaluationLimitsTest {
     /** "< <= > >= compare integers and reals as doubles (...), logicals, and items of one type by their numbers" */
     private static void comparisons() {
         given("type k=enum(a,b,d);end;type j=enum(f,g);end;entity e;end;", 1);
-        String[][] rising = {{LEAST, "-5", "-1", "0", "1", "5", MOST}, {"-1/0", LEAST + "*2.0", LEAST, "-2.5", "-2", "-1.5", "-0.000001", "0",
-            "0.000001", "1", "1.5", "2", "2.5", MOST, MOST + "*2.0", "1/0"}, {"false", "unknown", "true"}, {"a", "b", "d"}, {"f", "g"}};
+        String[][] rising = {{LEAST, "-5", "-1", "0", "1", "5", MOST},
+            {"-1/0", LEAST + "*2.0", LEAST, "-2.5", "-2", "-1.5", "-0.000001", "0", "0.000001", "1", "1.5", "2", "2.5", MOST,
+                MOST + "*2.0", "1/0"},
+            {"false", "unknown", "true"}, {"a", "b", "d"}, {"f", "g"}};
         for (String[] values : rising) {
             for (int i = 0; i < values.length; i++) {
                 for (int j = 0; j < values.length; j++) {
@@ -214,7 +218,8 @@ public final class EvaluationLimitsTest {
             }
         }
         for (String sign : new String[] {"<", "<=", ">", ">="}) {
-            for (String wrong : new String[] {"a#f", "f#d", "a#0", "0#a", "true#2", "1#true", "#0##0", "[1]#[1]", "[]#[]", "[1]#1", "a#true"}) {
+            for (String wrong : new String[] {"a#f", "f#d", "a#0", "0#a", "true#2", "1#true", "#0##0", "[1]#[1]", "[]#[]", "[1]#1",
+                "a#true"}) {
                 int at = wrong.indexOf('#', 1);
                 String exp = wrong.substring(0, at) + " " + sign + " " + wrong.substring(at + 1);
                 is(exp, "?");
@@ -351,7 +356,8 @@ public final class EvaluationLimitsTest {
 
     /** "a [ i ], for an aggregate and an integer: the value in the place with index i, counted from the low index" */
     private static void indices() {
-        given("entity e;a:array[2:4] of integer;l:list[0:?] of integer;b:bag[0:?] of integer;s:set[0:?] of integer;z:array[0:?] of integer;end;", 1);
+        given("entity e;a:array[2:4] of integer;l:list[0:?] of integer;b:bag[0:?] of integer;s:set[0:?] of integer;"
+            + "z:array[0:?] of integer;end;", 1);
         for (int a = 0; a < 5; a++) {
             c.set(0, a, "[5,6,7]");
         }
@@ -447,6 +453,16 @@ public final class EvaluationLimitsTest {
         }
         is("sizeof(query(q<*[1:24]|true))", "24");
         is("query(q<*[1:23,2]|q=2)", "L1:1[2]");
+        // many one behind the other, and behind them some inside others
+        is(Checks.repeated("sizeof(query(q<*[1]|true))+", 40) + "1", "41");
+        is(Checks.repeated("sizeof(query(q<*[1]|true))+", 33) + "sizeof(query(q<*[1,2,3]|sizeof(query(r<*[1,4]|r=q))=1))", "34");
+        is("query(q<*" + Checks.repeated("query(r<*[7]|true)+", 10) + "[8]|sizeof(query(s<*[1,2]|sizeof(query(t<*[3]|t>s))=1))=2)",
+            "L1:1[" + Checks.repeated("7,", 10) + "8]");
+        c.given("function f(a:integer,b:integer,d:integer,e:integer):integer;" + Checks.repeated("var v@:integer;", 6)
+            + "repeat i=1 to 1;repeat j=2 to 2;repeat k=3 to 3;repeat l=4 to 4;repeat m=5 to 5;repeat n=6 to 6;end;"
+            + "v5=sizeof(query(q<*[1,2]|sizeof(query(r<*[3,4]|sizeof(query(s<*[5]|(q<r) and (r<s)))=1))=2))*100000"
+            + "+i*10000+j*1000+k*100+l*10+m;end;end;end;end;end;return v5;end;");
+        is("f(1,2,3,4)", "212345");
     }
 
     /** "each has to fit its parameter, otherwise the result is nothing" */
@@ -471,7 +487,8 @@ public final class EvaluationLimitsTest {
 
     /** "The result is what is returned, if it fits the kind of the function, otherwise nothing; it is nothing, too, at the end" */
     private static void results() {
-        given("function a():integer;end;function b():integer;return 1.5;end;function d():real;return 1;end;function e():set[0:?] of integer;"
+        given("function a():integer;end;function b():integer;return 1.5;end;function d():real;return 1;end;"
+            + "function e():set[0:?] of integer;"
             + "return [1,1,2];end;function f():array[2:3] of integer;return [1];end;function g():integer;return ?;return 1;end;");
         is("a()", "?");
         is("b()", "?");
@@ -524,7 +541,8 @@ public final class EvaluationLimitsTest {
     }
 
     private static void builtInOfReals() {
-        String values = "0.0 -0.0 0.4 -0.4 0.5 -0.5 0.6 -0.6 1.5 -1.5 2.5 -2.5 3.0 -3.0 0.499999 0.500001 999999.5 -999999.5 999998.5 "
+        String values = "0.0 -0.0 0.4 -0.4 0.5 -0.5 0.6 -0.6 1.5 -1.5 2.5 -2.5 3.0 -3.0 0.499999 0.500001 999999.5 -999999.5 "
+            + "999998.5 "
             + "0.000001 -0.000001";
         for (String text : values.split(" ")) {
             double value = Double.parseDouble(text);
@@ -572,9 +590,11 @@ public final class EvaluationLimitsTest {
 
     /** "NAME = exp: the value has to fit the kind of the parameter or variable, otherwise the function ends." */
     private static void assignments() {
-        given("entity e;end;function f(x:real,y:e):integer;x=y;return 1;end;function g(x:real,y:integer):integer;x=y;y=x;return 1;end;"
+        given("entity e;end;function f(x:real,y:e):integer;x=y;return 1;end;function g(x:real,y:integer):integer;x=y;y=x;"
+            + "return 1;end;"
             + "function h(x:real):real;x=7;return x;end;function k(x:set[0:?] of integer):set[0:?] of integer;x=[3,3];return x;end;"
-            + "function l(x:array[0:1] of integer):integer;x=[1];return 1;end;function m(x:e):integer;x=?;if exists(x) then return 1;end;return 2;end;", 1);
+            + "function l(x:array[0:1] of integer):integer;x=[1];return 1;end;function m(x:e):integer;x=?;"
+                + "if exists(x) then return 1;end;return 2;end;", 1);
         is("f(1,#0)", "?");
         is("f(1,?)", "1");
         is("g(1,2)", "?");
@@ -585,7 +605,8 @@ public final class EvaluationLimitsTest {
     }
 
     private static void indexed(String kind, String statement, String argument, String want) {
-        given("type n=real;end;type li=list[0:?] of n;end;entity e;end;function f(x:" + kind + "):" + kind + ";" + statement + "return x;end;"
+        given("type n=real;end;type li=list[0:?] of n;end;entity e;end;function f(x:" + kind + "):" + kind + ";" + statement
+            + "return x;end;"
             + "function g(x:" + kind + "):integer;" + statement + "return 5;end;", 1);
         is("f(" + argument + ")", want);
         Checks.due(statement + " with " + argument + " goes on", c.value("g(" + argument + ")"), want.equals("?") ? "?" : "5");
@@ -673,9 +694,11 @@ public final class EvaluationLimitsTest {
     /** "if and while go by whether the expression is true; all other values count as not true" */
     private static void branches() {
         given("entity e;end;function f(x:logical):integer;var y:integer;if x then y=1;else y=2;end;return y;end;"
-            + "function g(x:integer):integer;var y:integer;if x>1 then y=1;if x>2 then y=3;end;else y=2;if x<0 then y=4;else y=5;end;end;return y;end;"
+            + "function g(x:integer):integer;var y:integer;if x>1 then y=1;if x>2 then y=3;end;else y=2;if x<0 then y=4;else y=5;"
+                + "end;end;return y;end;"
             + "function h(x:list[0:?] of logical):integer;var n:integer;n=1;while x[n];n=n+1;end;return n;end;"
-            + "function k(x:e):integer;if x then return 1;end;while x;return 1;end;if 1 then return 1;end;if [true] then return 1;end;return 2;end;", 1);
+            + "function k(x:e):integer;if x then return 1;end;while x;return 1;end;if 1 then return 1;end;"
+                + "if [true] then return 1;end;return 2;end;", 1);
         is("f(true)", "1");
         is("f(false)", "2");
         is("f(unknown)", "2");
@@ -693,16 +716,20 @@ public final class EvaluationLimitsTest {
 
     /** "The variable runs from the first one, by by, as long as it is not beyond the second one and within 32 bits." */
     private static void repeats() {
-        given("function f(x:integer,y:integer,z:integer):list[0:?] of integer;var r:list[0:?] of integer;r=[];repeat i=x to y by z;r=r+[i];end;"
+        given("function f(x:integer,y:integer,z:integer):list[0:?] of integer;var r:list[0:?] of integer;r=[];"
+            + "repeat i=x to y by z;r=r+[i];end;"
             + "return r;end;function g(x:integer,y:integer):integer;var n:integer;n=0;repeat i=x to y;n=n+1;end;return n;end;"
-            + "function h(x:real):integer;repeat i=1 to x;end;return 1;end;function k(x:logical):integer;repeat i=1 to 2 by x;end;return 1;end;"
+            + "function h(x:real):integer;repeat i=1 to x;end;return 1;end;function k(x:logical):integer;repeat i=1 to 2 by x;"
+                + "end;return 1;end;"
             + "function m(x:real):integer;repeat i=x to 2;end;return 1;end;");
-        String[][] runs = {{"1", "3", "1", "1,2,3"}, {"3", "3", "1", "3"}, {"4", "3", "1", ""}, {"1", "4", "2", "1,3"}, {"1", "5", "2", "1,3,5"},
-            {"3", "1", "-1", "3,2,1"}, {"3", "3", "-1", "3"}, {"3", "4", "-1", ""}, {"5", "1", "-3", "5,2"}, {"-1", "1", "1", "-1,0,1"},
-            {MOST + "-2", MOST, "1", "2147483645,2147483646,2147483647"}, {MOST + "-2", MOST, "2", "2147483645,2147483647"},
-            {MOST + "-1", MOST, "2", "2147483646"}, {MOST, MOST, MOST, "2147483647"}, {LEAST, LEAST, "-1", "-2147483648"},
-            {LEAST + "+1", LEAST, "-1", "-2147483647,-2147483648"}, {LEAST + "+1", LEAST, "-2", "-2147483647"}, {"0", LEAST, LEAST, "0,-2147483648"},
-            {LEAST, MOST, MOST, "-2147483648,-1,2147483646"}, {"0", MOST, MOST, "0,2147483647"}, {"1", "0", MOST, ""}};
+        String[][] runs = {{"1", "3", "1", "1,2,3"}, {"3", "3", "1", "3"}, {"4", "3", "1", ""}, {"1", "4", "2", "1,3"},
+            {"1", "5", "2", "1,3,5"}, {"3", "1", "-1", "3,2,1"}, {"3", "3", "-1", "3"}, {"3", "4", "-1", ""},
+            {"5", "1", "-3", "5,2"}, {"-1", "1", "1", "-1,0,1"}, {MOST + "-2", MOST, "1", "2147483645,2147483646,2147483647"},
+            {MOST + "-2", MOST, "2", "2147483645,2147483647"}, {MOST + "-1", MOST, "2", "2147483646"},
+            {MOST, MOST, MOST, "2147483647"}, {LEAST, LEAST, "-1", "-2147483648"},
+            {LEAST + "+1", LEAST, "-1", "-2147483647,-2147483648"}, {LEAST + "+1", LEAST, "-2", "-2147483647"},
+            {"0", LEAST, LEAST, "0,-2147483648"}, {LEAST, MOST, MOST, "-2147483648,-1,2147483646"},
+            {"0", MOST, MOST, "0,2147483647"}, {"1", "0", MOST, ""}};
         for (String[] run : runs) {
             is("f(" + run[0] + "," + run[1] + "," + run[2] + ")", run[3].isEmpty() ? "L1:0[]" : "L1:1[" + run[3] + "]");
         }
@@ -720,11 +747,16 @@ public final class EvaluationLimitsTest {
 
     /** "escape leaves the innermost repeat or while, skip continues with its next turn; outside of one the function ends" */
     private static void loopsInLoops() {
-        given("function a():integer;var s:integer;s=0;repeat i=1 to 5;repeat j=1 to 2;end;while false;end;if i=3 then escape;end;s=s*10+i;end;return s;end;"
-            + "function b():integer;var s:integer;s=0;repeat i=1 to 5;repeat j=1 to 2;end;while false;end;if i=3 then skip;end;s=s*10+i;end;return s;end;"
-            + "function d():integer;var s:integer;s=0;while s<100;s=s+7;repeat j=1 to 9;if j=2 then escape;end;s=s+j;end;if s>30 then escape;end;end;return s;end;"
-            + "function e():integer;var s:integer;s=0;while s<100;s=s+7;repeat j=1 to 3;if j=2 then skip;end;s=s+j;end;if s<90 then skip;end;s=s+1000;end;return s;end;"
-            + "function f():integer;repeat i=1 to 2;end;escape;return 1;end;function g():integer;while false;end;skip;return 1;end;");
+        given("function a():integer;var s:integer;s=0;repeat i=1 to 5;repeat j=1 to 2;end;while false;end;if i=3 then escape;end;"
+            + "s=s*10+i;end;return s;end;"
+            + "function b():integer;var s:integer;s=0;repeat i=1 to 5;repeat j=1 to 2;end;while false;end;if i=3 then skip;end;"
+                + "s=s*10+i;end;return s;end;"
+            + "function d():integer;var s:integer;s=0;while s<100;s=s+7;repeat j=1 to 9;if j=2 then escape;end;s=s+j;end;"
+                + "if s>30 then escape;end;end;return s;end;"
+            + "function e():integer;var s:integer;s=0;while s<100;s=s+7;repeat j=1 to 3;if j=2 then skip;end;s=s+j;end;"
+                + "if s<90 then skip;end;s=s+1000;end;return s;end;"
+            + "function f():integer;repeat i=1 to 2;end;escape;return 1;end;function g():integer;while false;end;skip;return 1;"
+                + "end;");
         is("a()", "12");
         is("b()", "1245");
         is("d()", "32");

@@ -35,7 +35,8 @@ public final class MeaningsTest {
 
     /** "The names of types, items, entities, functions and rules, and of the built-in functions, are one group" */
     private static void oneGroup() {
-        String[] sorts = {"type N=real;end;", "type tt@=enum(N);end;", "entity N;end;", "function N():real;end;", "rule N;where end;"};
+        String[] sorts = {"type N=real;end;", "type tt@=enum(N);end;", "entity N;end;", "function N():real;end;",
+            "rule N;where end;"};
         for (int a = 0; a < sorts.length; a++) {
             String first = sorts[a].replace("@", "1").replace("N", "nn");
             for (int b = 0; b < sorts.length; b++) {
@@ -55,13 +56,15 @@ public final class MeaningsTest {
 
     /** "those of all attributes another one" */
     private static void groupOfAttributes() {
-        String[] attributes = {"entity e@;N:real;end;", "entity e@;derive N:real=1;end;", "entity e@;inverse N:ff for xx[0:1];end;"};
+        String[] attributes = {"entity e@;N:real;end;", "entity e@;derive N:real=1;end;", "entity e@;inverse N:ff for xx[0:1];"
+            + "end;"};
         String before = "entity ff;xx:ff;end;";
         for (String first : attributes) {
             for (String second : attributes) {
                 String text = before + first.replace("@", "1").replace("N", "nn");
                 partsIs(text + second.replace("@", "2").replace("N", "nm") + "end;", "fine");
-                partsIs(text + second.replace("@", "2").replace("N", "nn") + "end;", "3@" + (text.length() + second.indexOf('N') + 0));
+                String known = text + second.replace("@", "2").replace("N", "nn") + "end;";
+                partsIs(known, "3@" + (text.length() + second.indexOf('N')));
             }
             for (String other : new String[] {"abs", "ff", "tt", "it", "gg", "rr", "pp", "s"}) {
                 partsIs(before + "type tt=enum(it);end;function gg(pp:real):real;end;rule rr;where end;"
@@ -78,7 +81,8 @@ public final class MeaningsTest {
         partsIs("function f(a:real):real;var b:real;end;function g(a:real):real;var b:real;end;end;", "fine");
         partsIs("type t=enum(it);end;entity e;at:real;end;rule r;where end;function f(t:real,it:real,e:real,at:real):real;"
             + "var f:real;var r:real;var abs:real;var g:real;var s:real;end;function g():real;end;end;", "fine");
-        partsIs("function f(a:real):real;repeat a=1 to 2;repeat a=1 to 2;return query(a<*query(a<*[1]|a)|a);end;end;end;end;", "fine");
+        partsIs("function f(a:real):real;repeat a=1 to 2;repeat a=1 to 2;return query(a<*query(a<*[1]|a)|a);end;end;end;end;",
+            "fine");
     }
 
     /** A text with each name in place of X: fine for some, otherwise number 4 at the name. */
@@ -118,7 +122,8 @@ public final class MeaningsTest {
     private static void aggregatesAsItems() {
         for (String sort : "array list bag set".split(" ")) {
             String direct = "type a=" + sort + "[0:1] of real;end;";
-            String[] sites = {"type q=set[0:1] of X;end;", "type q=select(X);end;", "type q=select(b,X);end;", "entity q;w:list[0:1] of X;end;",
+            String[] sites = {"type q=set[0:1] of X;end;", "type q=select(X);end;", "type q=select(b,X);end;",
+                "entity q;w:list[0:1] of X;end;",
                 "function q(w:bag[0:1] of X):real;end;"};
             for (String site : sites) {
                 for (String text : new String[] {direct + "type b=real;end;", "type b=real;end;type c=real;end;" + direct}) {
@@ -267,7 +272,8 @@ public final class MeaningsTest {
     private static void firstThatExists() {
         c.given("type t=enum(a,b,c,d);end;entity e;a:integer;derive w:integer=a;x:integer=sizeof(query(a<*[7,8]|a>7));y:t=b;"
             + "z:integer=sizeof(query(q<*[1,2,3]|q<a));end;entity f under e;derive v:integer=a+1;end;entity g;b:integer;end;"
-            + "function k(a:integer):integer;return a;end;function l(a:integer):list[0:?] of integer;var c:list[0:?] of integer;c=[];"
+            + "function k(a:integer):integer;return a;end;function l(a:integer):list[0:?] of integer;var c:list[0:?] of integer;"
+                + "c=[];"
             + "repeat a=1 to a;c=c+[a]+query(a<*[8,9]|a=9);end;return c+[a];end;function m():t;return c;end;");
         c.house.make(1);
         c.house.make(3);

@@ -163,7 +163,8 @@ public final class PopulationLimitsTest {
 
     /** "in an aggregate a place of an array becomes nothing, and a place of a list, bag or set is removed" */
     private static void droppedFromValues() {
-        given("type s=select(e,n);end;type n=integer;end;entity e;x:s;a:array[3:6] of s;l:list[0:?] of e;b:bag[0:?] of e;s1:set[0:?] of s;"
+        given("type s=select(e,n);end;type n=integer;end;entity e;x:s;a:array[3:6] of s;l:list[0:?] of e;b:bag[0:?] of e;"
+            + "s1:set[0:?] of s;"
             + "i:list[0:?] of n;end;", 1, 1, 1);
         c.set(0, 0, "#1");
         c.set(0, 1, "[#1,#2,#1,#0]");
@@ -213,9 +214,11 @@ public final class PopulationLimitsTest {
 
     /** Promise 15: "Returns the kind of the value, as converted" */
     private static void settingWhatFits() {
-        given("type s=select(n,e);end;type n=integer;end;type k=enum(i);end;entity e;a:real;b:integer;d:logical;f:k;g:e;h:set[0:?] of integer;j:s;end;", 1);
-        String[][] calls = {{"0", "1", "2"}, {"0", "1.5", "2"}, {"1", "1", "1"}, {"1", "1.0", "-3"}, {"2", "true", "3"}, {"3", "i", "4"},
-            {"4", "#0", "5"}, {"4", "#1", "0"}, {"5", "[1]", "6"}, {"6", "1", "1"}, {"6", "#0", "5"}, {"6", "1.0", "-3"}, {"0", "?", "0"}};
+        given("type s=select(n,e);end;type n=integer;end;type k=enum(i);end;entity e;a:real;b:integer;d:logical;f:k;g:e;"
+            + "h:set[0:?] of integer;j:s;end;", 1);
+        String[][] calls = {{"0", "1", "2"}, {"0", "1.5", "2"}, {"1", "1", "1"}, {"1", "1.0", "-3"}, {"2", "true", "3"},
+            {"3", "i", "4"}, {"4", "#0", "5"}, {"4", "#1", "0"}, {"5", "[1]", "6"}, {"6", "1", "1"}, {"6", "#0", "5"},
+            {"6", "1.0", "-3"}, {"0", "?", "0"}};
         for (String[] call : calls) {
             Checks.due("set " + call[1], c.set(0, Integer.parseInt(call[0]), call[1]), Integer.parseInt(call[2]));
         }
@@ -225,7 +228,8 @@ public final class PopulationLimitsTest {
     }
 
     private static void gettingValues() {
-        given("type k=enum(i);end;entity e;a:real;d:logical;f:k;g:e;h:set[0:?] of integer;derive m:integer=5;o:integer=5.5;p:set[0:?] of integer=[1,1];"
+        given("type k=enum(i);end;entity e;a:real;d:logical;f:k;g:e;h:set[0:?] of integer;derive m:integer=5;o:integer=5.5;"
+            + "p:set[0:?] of integer=[1,1];"
             + "q:e=self;r:logical=self=g;inverse n:e for g[0:?];end;", 1, 1);
         String[] exps = {"1", "true", "i", "#1", "[1]"};
         for (int a = 0; a < 5; a++) {
@@ -407,5 +411,9 @@ public final class PopulationLimitsTest {
         Checks.due("a faulty file", c.readFault("#1=a($);#2=a(#3);#3=d();#4=d(1);"), "2@30");
         Checks.due("make", c.house.make(2), 3);
         Checks.due("alike", c.value("#3=#2"), "t");
+        Checks.due("another faulty file", c.readFault("#1=a(#2);#2=d();#3=d(1);"), "2@22");
+        Checks.due("read", c.read("#1=b($);#2=d();"), 2);
+        Checks.due("usedin", c.value("usedin(#5)"), "B1:5[]");
+        Checks.due("alike", c.value("#4=#2"), "t");
     }
 }

@@ -2,7 +2,8 @@
 public final class RefusedCallsTest {
     private static final int BAD = ExpressHouse.BAD, FULL = ExpressHouse.FULL, NONE = ExpressHouse.NONE, SPENT = ExpressHouse.SPENT;
     private static final int MISSING = -21, NO_INDEX = -22, OTHER_LANE = -23, LANES = -24;
-    private static final String SCHEMA = "type k=enum(i,j);end;entity a;x:integer;l:list[0:?] of a;where x>5;end;entity b under a;r:real;"
+    private static final String SCHEMA = "type k=enum(i,j);end;entity a;x:integer;l:list[0:?] of a;where x>5;end;"
+        + "entity b under a;r:real;"
         + "derive d:integer=f(x);end;entity e abstract;end;entity g under a over oneof(h);end;entity h under g;end;"
         + "entity w;m:list[0:?] of integer;end;function f(n:integer):integer;return f(n);end;rule ru;where false;end;";
 
@@ -260,10 +261,11 @@ public final class RefusedCallsTest {
 
     /** "BAD; -21 if the row is missing; -23 if it has another lane; -22" */
     private static void elements() {
-        long[][] calls = {{-1, 1, 0, 0, BAD}, {4, 1, 0, 0, BAD}, {3, 0, 0, 0, BAD}, {3, 6, 0, 0, BAD}, {0, 1, 0, 0, MISSING}, {0, 1, -1, 0, MISSING},
-            {0, 5, 9, 0, MISSING}, {3, 2, 0, 0, OTHER_LANE}, {3, 5, 9, 0, OTHER_LANE}, {1, 1, 0, 0, OTHER_LANE}, {2, 4, -1, 0, OTHER_LANE},
-            {3, 1, 4, 0, NO_INDEX}, {3, 1, -1, 0, NO_INDEX}, {3, 1, Integer.MIN_VALUE, 0, NO_INDEX}, {3, 1, Integer.MAX_VALUE, 0, NO_INDEX},
-            {1, 2, 2, 0, NO_INDEX}, {2, 5, 3, 0, NO_INDEX}};
+        long[][] calls = {{-1, 1, 0, 0, BAD}, {4, 1, 0, 0, BAD}, {3, 0, 0, 0, BAD}, {3, 6, 0, 0, BAD}, {0, 1, 0, 0, MISSING},
+            {0, 1, -1, 0, MISSING}, {0, 5, 9, 0, MISSING}, {3, 2, 0, 0, OTHER_LANE}, {3, 5, 9, 0, OTHER_LANE},
+            {1, 1, 0, 0, OTHER_LANE}, {2, 4, -1, 0, OTHER_LANE}, {3, 1, 4, 0, NO_INDEX}, {3, 1, -1, 0, NO_INDEX},
+            {3, 1, Integer.MIN_VALUE, 0, NO_INDEX}, {3, 1, Integer.MAX_VALUE, 0, NO_INDEX}, {1, 2, 2, 0, NO_INDEX},
+            {2, 5, 3, 0, NO_INDEX}};
         for (long[] call : calls) {
             int k = (int) call[0];
             int lane = (int) call[1];
@@ -274,8 +276,9 @@ public final class RefusedCallsTest {
             c.house.item(k, lane, i);
             Checks.due("failed of item(" + k + ", " + lane + ", " + i + ")", c.house.failed(), call[4]);
         }
-        long[][] values = {{3, 3}, {3, -1}, {3, Long.MIN_VALUE}, {3, 1L << 32}, {3, (1L << 32) + 1}, {4, 2}, {4, -1}, {4, 1L << 32}, {4, Long.MAX_VALUE},
-            {5, 2}, {5, 4}, {5, 5}, {5, -1}, {5, 40}, {5, 1L << 32}, {5, (1L << 32) + 1}, {5, Long.MIN_VALUE}};
+        long[][] values = {{3, 3}, {3, -1}, {3, Long.MIN_VALUE}, {3, 1L << 32}, {3, (1L << 32) + 1}, {4, 2}, {4, -1},
+            {4, 1L << 32}, {4, Long.MAX_VALUE}, {5, 2}, {5, 4}, {5, 5}, {5, -1}, {5, 40}, {5, 1L << 32}, {5, (1L << 32) + 1},
+            {5, Long.MIN_VALUE}};
         for (long[] value : values) {
             for (int k = 0; k < 4; k++) {
                 int row = k;
@@ -283,7 +286,8 @@ public final class RefusedCallsTest {
                 refused("put of " + value[1] + " to " + k, c -> c.house.put(row, (int) value[0], 0, value[1]), BAD);
             }
         }
-        long[][] fine = {{3, 0}, {3, 1}, {3, 2}, {4, 0}, {4, 1}, {5, 0}, {5, 1}, {5, 3}, {1, Long.MIN_VALUE}, {2, Long.MAX_VALUE}};
+        long[][] fine = {{3, 0}, {3, 1}, {3, 2}, {4, 0}, {4, 1}, {5, 0}, {5, 1}, {5, 3}, {1, Long.MIN_VALUE},
+            {2, Long.MAX_VALUE}};
         for (long[] value : fine) {
             refused("put of " + value[1], c -> c.house.put(0, (int) value[0], 0, value[1]), MISSING);
         }
@@ -292,13 +296,15 @@ public final class RefusedCallsTest {
     /** "BAD; -21 if one of the rows is missing; -24; -22 if i, j or n is negative, or i + n or j + n is greater ..." */
     private static void passes() {
         int most = Integer.MAX_VALUE;
-        int[][] calls = {{-1, 0, 0, 0, 0, BAD}, {0, 0, -1, 0, 0, BAD}, {4, 0, 3, 0, 0, BAD}, {3, 0, 4, 0, 0, BAD}, {-1, -1, 0, -1, -1, BAD},
-            {0, 0, 3, 0, 0, MISSING}, {3, 0, 0, 0, 0, MISSING}, {0, -1, 0, -1, -1, MISSING}, {0, 9, 1, 9, 9, MISSING},
-            {3, 0, 1, 0, 0, LANES}, {1, 0, 2, 0, 1, LANES}, {2, -1, 3, -1, -1, LANES}, {3, 9, 1, 9, 9, LANES},
-            {3, -1, 3, 0, 0, NO_INDEX}, {3, 0, 3, -1, 0, NO_INDEX}, {3, 0, 3, 0, -1, NO_INDEX}, {3, 0, 3, 0, 5, NO_INDEX}, {3, 1, 3, 0, 4, NO_INDEX},
-            {3, 0, 3, 1, 4, NO_INDEX}, {3, 5, 3, 0, 0, NO_INDEX}, {3, 0, 3, 5, 0, NO_INDEX}, {3, 4, 3, 0, 1, NO_INDEX}, {3, 0, 3, 4, 1, NO_INDEX},
-            {3, most, 3, 0, most, NO_INDEX}, {3, 0, 3, most, most, NO_INDEX}, {3, 1, 3, 1, most, NO_INDEX}, {3, most, 3, 0, 1, NO_INDEX},
-            {3, 0, 3, most, 1, NO_INDEX}, {3, Integer.MIN_VALUE, 3, 0, Integer.MIN_VALUE, NO_INDEX}, {3, -1, 3, -1, 1, NO_INDEX}};
+        int[][] calls = {{-1, 0, 0, 0, 0, BAD}, {0, 0, -1, 0, 0, BAD}, {4, 0, 3, 0, 0, BAD}, {3, 0, 4, 0, 0, BAD},
+            {-1, -1, 0, -1, -1, BAD}, {0, 0, 3, 0, 0, MISSING}, {3, 0, 0, 0, 0, MISSING}, {0, -1, 0, -1, -1, MISSING},
+            {0, 9, 1, 9, 9, MISSING}, {3, 0, 1, 0, 0, LANES}, {1, 0, 2, 0, 1, LANES}, {2, -1, 3, -1, -1, LANES},
+            {3, 9, 1, 9, 9, LANES}, {3, -1, 3, 0, 0, NO_INDEX}, {3, 0, 3, -1, 0, NO_INDEX}, {3, 0, 3, 0, -1, NO_INDEX},
+            {3, 0, 3, 0, 5, NO_INDEX}, {3, 1, 3, 0, 4, NO_INDEX}, {3, 0, 3, 1, 4, NO_INDEX}, {3, 5, 3, 0, 0, NO_INDEX},
+            {3, 0, 3, 5, 0, NO_INDEX}, {3, 4, 3, 0, 1, NO_INDEX}, {3, 0, 3, 4, 1, NO_INDEX}, {3, most, 3, 0, most, NO_INDEX},
+            {3, 0, 3, most, most, NO_INDEX}, {3, 1, 3, 1, most, NO_INDEX}, {3, most, 3, 0, 1, NO_INDEX},
+            {3, 0, 3, most, 1, NO_INDEX}, {3, Integer.MIN_VALUE, 3, 0, Integer.MIN_VALUE, NO_INDEX},
+            {3, -1, 3, -1, 1, NO_INDEX}};
         for (int[] p : calls) {
             refused("pass " + java.util.Arrays.toString(p), c -> c.house.pass(p[0], p[1], p[2], p[3], p[4]), p[5]);
         }
@@ -328,8 +334,9 @@ public final class RefusedCallsTest {
         }, c -> c.house.write(), FULL);
         refused("out", c -> c.house.out(-1), BAD);
         refused("out", c -> c.house.out(c.house.count(10)), BAD);
-        String[] files = {"#1=a(1,$);#2=a(", "#1=a(1,$);#2=a(1.5,$);", "#1=a(1,$);#1=a(1,$);", "#1=a(1,(#1));#2=zz();", "x"};
-        int[] places = {15, 15, 10, 16, 0};
+        String[] files = {"#1=a(1,$);#2=a(1,$);#3=a(1,$);#4=a(1,$);#5=b(1,$,$);#6=a(1);", "#1=a(1,$);#2=a(",
+            "#1=a(1,$);#2=a(1.5,$);", "#1=a(1,$);#1=a(1,$);", "#1=a(1,(#1));#2=zz();", "x"};
+        int[] places = {58, 15, 15, 10, 16, 0};
         for (int i = 0; i < files.length; i++) {
             String file = files[i];
             refused("read " + file, c -> c.read(file), -10 - places[i]);
@@ -388,12 +395,14 @@ public final class RefusedCallsTest {
 
     /** "The tape is empty after each call that reads it, unless it returns BAD." */
     private static void tapeOfEachCall() {
-        String[] texts = {"schema s;entity a;x:integer;end;function f():integer;while true;end;end;end;", "schema s;", "1", "1+", "f()", "%"};
+        String[] texts = {"schema s;entity a;x:integer;end;function f():integer;while true;end;end;end;", "schema s;", "1", "1+",
+            "f()", "%"};
         for (String text : texts) {
             Checks c = new Checks();
             c.given("entity a;x:integer;end;function f():integer;while true;end;end;");
             c.house.make(1);
-            Call[] calls = {one -> one.house.schema(), one -> one.house.work(), one -> one.house.set(0, 0), one -> one.house.read()};
+            Call[] calls = {one -> one.house.schema(), one -> one.house.work(), one -> one.house.set(0, 0),
+                one -> one.house.read()};
             for (Call call : calls) {
                 c.tape(text);
                 Checks.due("the tape", c.house.count(9), text.length());

@@ -65,7 +65,8 @@ public final class RuleLimitsTest {
         rulesAre("rule r;where end;", "40");
         rulesAre("rule r;where end;type t=real;end;entity e;end;rule s;where end;entity f;end;type u=enum(i);end;",
             "00 10 20 01 11 21 30 31 40 41");
-        rulesAre(Checks.repeated("rule r@;where end;", 4) + Checks.repeated("type t@=real;end;", 8) + Checks.repeated("entity e@;end;", 12),
+        rulesAre(Checks.repeated("rule r@;where end;", 4) + Checks.repeated("type t@=real;end;", 8)
+            + Checks.repeated("entity e@;end;", 12),
             "00 10 20 01 11 21 02 12 22 03 13 23 04 14 24 05 15 25 06 16 26 07 17 27 08 18 28 09 19 29 010 110 210 011 111 211 "
             + "30 31 32 33 34 35 36 37 40 41 42 43");
     }
@@ -78,8 +79,10 @@ public final class RuleLimitsTest {
         }
         for (int e = 0; e < 12; e++) {
             parts.append("entity e").append(e).append(";a").append(e).append(":t").append(e % 8).append(";b").append(e)
-                .append(":integer;c").append(e).append(":integer;").append(e < 4 ? "d" + e + ":integer;" : "").append("unique a").append(e)
-                .append(";b").append(e).append(",c").append(e).append(";where a").append(e).append("<>").append(50 + e).append(";end;");
+                .append(":integer;c").append(e).append(":integer;").append(e < 4 ? "d" + e
+                    + ":integer;" : "").append("unique a").append(e)
+                .append(";b").append(e).append(",c").append(e).append(";where a").append(e).append("<>").append(50
+                    + e).append(";end;");
         }
         for (int r = 0; r < 4; r++) {
             parts.append("rule r").append(r).append(";where sizeof(e").append(r).append(")<3;end;");
@@ -122,7 +125,10 @@ public final class RuleLimitsTest {
         Checks.due("usedin", c.value("usedin(#23)"), "B1:5[]");
     }
 
-    /** "each value that is a list, bag or set has a number of places within the bounds of the kind of its attribute (through types)" */
+    /**
+     * "each value that is a list, bag or set has a number of places within the bounds of the kind of its attribute (through
+     * types)"
+     */
     private static void boundsOfPlaces() {
         String[] sorts = {"list", "bag", "set"};
         int[][] bounds = {{0, 0}, {0, -1}, {1, 1}, {2, 4}, {24, 24}, {23, -1}, {0, 24}, {5, 6}};
@@ -180,7 +186,8 @@ public final class RuleLimitsTest {
 
     /** "each explicit attribute of this entity (itself) that is not optional is not nothing" */
     private static void boundsOfTheEntityItself() {
-        given("entity e;a:integer;b:optional integer;derive d:integer=?;end;entity f under e;g:integer;h:optional integer;end;entity k under e;end;", 3, 1, 5);
+        given("entity e;a:integer;b:optional integer;derive d:integer=?;end;entity f under e;g:integer;h:optional integer;end;"
+            + "entity k under e;end;", 3, 1, 5);
         judged(0, "0 0=0 1=0 2=0");
         judged(3, "0 0=0");
         judged(6, "1");
@@ -198,7 +205,10 @@ public final class RuleLimitsTest {
         judged(3, "1");
     }
 
-    /** "is there an earlier existing instance with this entity whose attributes of the list are all alike to those of the instance" */
+    /**
+     * "is there an earlier existing instance with this entity whose attributes of the list are all alike to those of the
+     * instance"
+     */
     private static void uniquenessOfEarlierOnes() {
         given("entity e;a:integer;b:integer;unique a;end;entity f under e;d:integer;unique a,b;b,d;end;", 1, 3, 1, 3, 3);
         for (int x = 0; x < 5; x++) {
@@ -227,8 +237,10 @@ public final class RuleLimitsTest {
     }
 
     private static void uniquenessOfAlikeOnes() {
-        given("type n=integer;end;type r=real;end;type s=select(n,r);end;entity e;a:s;b:e;d:bag[0:?] of integer;unique a;b;d;end;", 1, 1);
-        String[][] pairs = {{"1", "1.0", "0"}, {"0.0", "-0.0", "0"}, {"0/0", "0/0", "1"}, {"1", "2", "1"}, {"?", "?", "1"}, {"1", "?", "1"}, {"1", "1", "0"}};
+        given("type n=integer;end;type r=real;end;type s=select(n,r);end;entity e;a:s;b:e;d:bag[0:?] of integer;unique a;b;d;end;",
+            1, 1);
+        String[][] pairs = {{"1", "1.0", "0"}, {"0.0", "-0.0", "0"}, {"0/0", "0/0", "1"}, {"1", "2", "1"}, {"?", "?", "1"},
+            {"1", "?", "1"}, {"1", "1", "0"}};
         for (String[] pair : pairs) {
             c.set(0, 0, pair[0]);
             c.set(1, 0, pair[1]);
@@ -297,10 +309,12 @@ public final class RuleLimitsTest {
 
     /** "an expression that is true gives 1, one that is false 0, a run that is spent 3, everything else 2" */
     private static void verdictOfEachValue() {
-        String[] exps = {"true", "false", "unknown", "?", "1", "0", "2", "1.5", "i", "e", "[]", "[true]", "#0", "not ?", "1=1", "1=?", "h()"};
+        String[] exps = {"true", "false", "unknown", "?", "1", "0", "2", "1.5", "i", "e", "[]", "[true]", "#0", "not ?", "1=1",
+            "1=?", "h()"};
         int[] want = {1, 0, 2, 2, 2, 2, 2, 2, 2, 2, 2, 2, 2, 2, 1, 2, 3};
         for (int i = 0; i < exps.length; i++) {
-            given("type k=enum(i);end;entity e;where " + exps[i] + ";end;type t=integer;where " + exps[i] + ";end;entity g;x:t;end;rule r;where "
+            given("type k=enum(i);end;entity e;where " + exps[i] + ";end;type t=integer;where " + exps[i]
+                + ";end;entity g;x:t;end;rule r;where "
                 + exps[i] + ";end;function h():logical;while true;end;end;", 1, 2);
             c.set(1, 0, "1");
             Checks.due("entity " + exps[i], c.house.judge(2), want[i]);
@@ -311,7 +325,8 @@ public final class RuleLimitsTest {
 
     /** "Each expression is a run of its own, and all are evaluated" */
     private static void allAreEvaluated() {
-        given("entity e;where false;1=1;unknown;1+1=2;end;rule r;where false;f();1=1;end;function f():logical;while true;end;end;", 1, 1);
+        given("entity e;where false;1=1;unknown;1+1=2;end;rule r;where false;f();1=1;end;function f():logical;while true;end;end;",
+            1, 1);
         c.house.steps(4);
         Checks.due("the verdict", c.house.judge(2), 0);
         Checks.due("the steps of all", c.house.count(12), 2 * (1 + 3 + 1 + 4));
@@ -321,9 +336,13 @@ public final class RuleLimitsTest {
         Checks.due("the steps of the latest", c.house.count(11), 3);
     }
 
-    /** "for each existing instance with an explicit attribute whose kind is just the name of this type, and whose value is not nothing" */
+    /**
+     * "for each existing instance with an explicit attribute whose kind is just the name of this type, and whose value is
+     * not nothing"
+     */
     private static void wheresOfTypes() {
-        given("type t=integer;where self<9;end;type u=t;where self<5;end;type l=list[0:?] of t;where sizeof(self)<3;end;type s=select(t,e);where exists(self);self=1;end;"
+        given("type t=integer;where self<9;end;type u=t;where self<5;end;type l=list[0:?] of t;where sizeof(self)<3;end;"
+            + "type s=select(t,e);where exists(self);self=1;end;"
             + "type k=enum(i,j);where self=i;end;entity e;a:t;b:t;d:u;f:list[0:?] of t;g:l;h:s;m:k;n:optional t;derive o:t=99;end;"
             + "entity x under e;y:t;end;", 1, 3);
         for (int r = 6; r < 11; r++) {

@@ -86,7 +86,8 @@ public final class StepsTest {
     }
 
     private static void stepsOfFunctions() {
-        given("function a():integer;end;function b():integer;return 1;end;function d(x:integer):integer;var y:integer;y=x;x=y+1;return x;"
+        given("function a():integer;end;function b():integer;return 1;end;function d(x:integer):integer;var y:integer;y=x;x=y+1;"
+            + "return x;"
             + "return x;end;function f(x:list[0:?] of integer):integer;x[1]=2;x[9]=3;return 1;end;function g(x:integer):integer;"
             + "if x then return 1;else return 2+3;end;return 4;end;function h():integer;if true then end;return 1+1;end;");
         stepsAre("a()", 1);
@@ -130,7 +131,8 @@ public final class StepsTest {
 
     /** "it has 0 steps for an explicit or inverse attribute, and those of its expression for a derived one" */
     private static void stepsOfAttributes() {
-        given("entity e;x:integer;derive d:integer=x+1;f:integer=self.d+d;g:integer=1;inverse i:f for p[0:?];end;entity f under e;p:e;end;",
+        given("entity e;x:integer;derive d:integer=x+1;f:integer=self.d+d;g:integer=1;inverse i:f for p[0:?];end;"
+            + "entity f under e;p:e;end;",
             1, 3);
         int[] want = {0, 3, 4 + 3 + 3, 1, 0};
         for (int a = 0; a < want.length; a++) {
@@ -172,7 +174,8 @@ public final class StepsTest {
         given("entity e;x:integer;end;function f(n:integer):integer;if n=0 then return 0;end;return f(n-1);end;", 1);
         // the call and its argument, and 4 and 5 steps in each of the frames 2 to 8
         int call = 2 + 7 * (4 + 5);
-        String[] exps = {"f(7)", "f(7)+1*2", "1*2+f(7)", "f(7)*2+1-3", "[1,f(7),2,3]", "[1:2,3:f(7)]", "-[1][f(7)].x", "f(7).x.x[1]",
+        String[] exps = {"f(7)", "f(7)+1*2", "1*2+f(7)", "f(7)*2+1-3", "[1,f(7),2,3]", "[1:2,3:f(7)]", "-[1][f(7)].x",
+            "f(7).x.x[1]",
             "f(7)<f(8)", "1+2<f(7)", "query(q<*f(7)|1)", "query(q<*[1,2]|f(7))", "nvl(1,f(7))", "not (1=f(7))"};
         int[] before = {0, 1, 4, 3, 2, 4, 5, 3, 1, 4, 1, 4, 2, 3};
         for (int i = 0; i < exps.length; i++) {
@@ -183,7 +186,8 @@ public final class StepsTest {
 
     /** "or all runs together have made 20000" */
     private static void twentyThousandInAll() {
-        given("entity e;x:integer;derive d:integer=1;where true;end;function f():integer;while true;end;end;rule r;where true;1=1;end;", 1);
+        given("entity e;x:integer;derive d:integer=1;where true;end;function f():integer;while true;end;end;rule r;where true;"
+            + "1=1;end;", 1);
         for (int run = 1; run <= 19; run++) {
             Checks.due("a thousand steps", c.work("f()"), ExpressHouse.SPENT);
             Checks.due("all steps", c.house.count(12), 1000 * run);
@@ -222,7 +226,8 @@ public final class StepsTest {
 
     /** "and when a ninth frame would be open. One frame is open in each run; each call of a function of the schema ..." */
     private static void framesOfFunctions() {
-        given("function f(n:integer):integer;if n<=0 then return 0;end;return 1+f(n-1);end;function g(n:integer):integer;return n+1;end;"
+        given("function f(n:integer):integer;if n<=0 then return 0;end;return 1+f(n-1);end;function g(n:integer):integer;"
+            + "return n+1;end;"
             + "function o(n:integer):integer;if n<=0 then return 0;end;return e(n-1)+1;end;"
             + "function e(n:integer):integer;if n<=0 then return 0;end;return o(n-1)+1;end;");
         for (int n = 0; n <= 9; n++) {
@@ -257,7 +262,8 @@ public final class StepsTest {
 
     /** "each has to fit its parameter, otherwise the result is nothing, and no frame is opened" */
     private static void framesThatAreNotOpened() {
-        given("entity e;derive d:integer=1;end;entity x;end;function f(n:integer):integer;if n=6 then return nvl(f(true),5);end;return f(n+1);end;"
+        given("entity e;derive d:integer=1;end;entity x;end;function f(n:integer):integer;if n=6 then return nvl(f(true),5);end;"
+            + "return f(n+1);end;"
             + "function g(n:integer):integer;if n=6 then return nvl(#1.d,5);end;return g(n+1);end;"
             + "function h(n:integer):integer;if n=6 then return h(7);end;return h(n+1);end;"
             + "function k(n:integer):integer;if n=6 then return #0.d;end;return k(n+1);end;", 1, 2);
@@ -271,7 +277,8 @@ public final class StepsTest {
 
     /** The first frame of a rule's run is that of its expression. */
     private static void framesOfRules() {
-        given("entity e;x:integer;where f(x)>=0;end;type t=integer;where f(self)>=0;end;entity h;y:t;end;rule a;where f(6)>=0;end;rule b;where f(7)>=0;end;"
+        given("entity e;x:integer;where f(x)>=0;end;type t=integer;where f(self)>=0;end;entity h;y:t;end;rule a;where f(6)>=0;"
+            + "end;rule b;where f(7)>=0;end;"
             + "function f(n:integer):integer;if n<=0 then return 0;end;return f(n-1);end;", 1, 1, 2, 2);
         c.set(0, 0, "6");
         Checks.due("an endless one", c.house.judge(2), 3);
@@ -290,8 +297,8 @@ public final class StepsTest {
     /** "1 to 1000; it is 1000 at first" */
     private static void limitOfSteps() {
         c.house = new ExpressHouse();
-        int[][] calls = {{0, -1}, {1001, -1}, {-1, -1}, {Integer.MIN_VALUE, -1}, {Integer.MAX_VALUE, -1}, {1000, 1000}, {1, 1000}, {0, -1},
-            {1, 1}, {999, 1}, {1001, -1}, {1000, 999}, {500, 1000}, {1000, 500}};
+        int[][] calls = {{0, -1}, {1001, -1}, {-1, -1}, {Integer.MIN_VALUE, -1}, {Integer.MAX_VALUE, -1}, {1000, 1000},
+            {1, 1000}, {0, -1}, {1, 1}, {999, 1}, {1001, -1}, {1000, 999}, {500, 1000}, {1000, 500}};
         for (int[] call : calls) {
             Checks.due("steps(" + call[0] + ")", c.house.steps(call[0]), call[1]);
         }

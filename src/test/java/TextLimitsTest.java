@@ -162,7 +162,8 @@ public final class TextLimitsTest {
     /** "reals: 1 to 6 digits, ".", 1 to 6 digits (more digits on either side are no token)", and their values. */
     private static void realsOfSix() {
         c.house = new ExpressHouse();
-        for (String real : "0.1 1.0 999999.999999 0.000001 000001.000000 123456.5 1.123456 0.3 2.675 99.99 000000.000000".split(" ")) {
+        String reals = "0.1 1.0 999999.999999 0.000001 000001.000000 123456.5 1.123456 0.3 2.675 99.99 000000.000000";
+        for (String real : reals.split(" ")) {
             Checks.due(real, c.value(real), "" + Double.parseDouble(real));
         }
         // the whole of all digits divided by a power of ten
@@ -199,6 +200,13 @@ public final class TextLimitsTest {
         workIs("1:=1", "2@1");
         workIs("[1:=1]", "2@3");
         workIs("1<=>1", "2@3");
+        workIs("1<=", "2@3");
+        workIs("1>=", "2@3");
+        workIs("1<>", "2@3");
+        workIs("1:=:", "2@4");
+        workIs("1:=", "2@1");
+        workIs("query(q<*", "2@9");
+        workIs("query(q<", "2@7");
         workIs("1<*1", "2@1");
         workIs("1|1", "2@1");
         workIs("1?1", "2@1");
@@ -289,7 +297,8 @@ public final class TextLimitsTest {
         limit("type t=real;where ", "(1);", 6, "end;end;", 0);
         limit("entity e;where ", "not true;", 6, "end;end;", 0);
         limit("rule r;where ", "[1];", 6, "end;end;", 0);
-        partsIs("type t=real;where " + times("1;", 6) + "end;entity e;where " + times("1;", 6) + "end;rule r;where " + times("1;", 6)
+        partsIs("type t=real;where " + times("1;", 6) + "end;entity e;where " + times("1;", 6) + "end;rule r;where " + times("1;",
+            6)
             + "end;rule s;where " + times("1;", 6) + "end;end;", "fine");
         partsIs("rule r;where 1;1;1;1;1;1;);end;end;", "2@25");
         partsIs("rule r;where 1;1;1;1;1;1;%end;end;", "1@25");
@@ -337,7 +346,8 @@ public final class TextLimitsTest {
 
     /** "a statement inside six others (at its first token)", of each kind, inside each kind */
     private static void insideSixOthers() {
-        String[][] others = {{"if 1 then ", "end;"}, {"if 1 then else ", "end;"}, {"while 1;", "end;"}, {"repeat i=1 to 2;", "end;"}};
+        String[][] others = {{"if 1 then ", "end;"}, {"if 1 then else ", "end;"}, {"while 1;", "end;"},
+            {"repeat i=1 to 2;", "end;"}};
         String[] statements = {"skip;", "escape;", "return 1;", "a=1;", "if 1 then end;", "while 1;end;", "repeat j=1 to 2;end;"};
         String before = "function f(a:real):real;";
         for (String[] other : others) {
@@ -361,18 +371,22 @@ public final class TextLimitsTest {
         workIs(NODES_599 + ".x", "fine");
         workIs(NODES_599 + ".x.x", "5@601");
         workIs(NODES_599 + ".x[1]", "5@601");
-        String[] operators = {"+", "-", "*", "/", "<", "<=", ">", ">=", "=", "<>", ":=:", " or ", " xor ", " and ", " div ", " mod ", " in "};
-        String[] parts = {"1", "1.5", "true", "false", "unknown", "?", "#0", "red", "e", "f()", "exists(1)", "query(q<*1|1)", "[]", "-1", "not 1"};
+        String[] operators = {"+", "-", "*", "/", "<", "<=", ">", ">=", "=", "<>", ":=:", " or ", " xor ", " and ", " div ",
+            " mod ", " in "};
+        String[] parts = {"1", "1.5", "true", "false", "unknown", "?", "#0", "red", "e", "f()", "exists(1)", "query(q<*1|1)", "[]",
+            "-1", "not 1"};
         String nodes598 = "-" + times("1*", 298) + "1";
         for (String operator : operators) {
             String text = NODES_599 + operator;
             workIs(text + "1", "5@" + text.length());
             workIs(nodes598 + operator + "1", "fine");
-            workIs(nodes598 + operator + "1" + (operator.equals("+") ? "-1" : "+1"), "5@" + (nodes598.length() + operator.length() + 1));
+            workIs(nodes598 + operator + "1" + (operator.equals("+") ? "-1" : "+1"), "5@" + (nodes598.length() + operator.length()
+                + 1));
         }
         for (String part : parts) {
             workIs(NODES_599 + "+" + part, "5@600");
-            workIs(nodes598 + "-" + part, part.matches("-1|not 1|exists.*|query.*") ? "5@" + (nodes598.length() + 1 + nextNode(part)) : "fine");
+            workIs(nodes598 + "-" + part, part.matches("-1|not 1|exists.*|query.*") ? "5@" + (nodes598.length() + 1
+                + nextNode(part)) : "fine");
         }
         workIs(nodes598 + "[1]", "fine");
         workIs(nodes598 + "[1+1]", "5@" + (nodes598.length() + 2));
@@ -424,7 +438,8 @@ public final class TextLimitsTest {
         partsIs("rule r;where " + times("(", 9) + "1" + times(")", 9) + ";end;end;", "5@21");
         partsIs("entity e;derive a:real=" + times("(", 9) + "1" + times(")", 9) + ";end;end;", "5@31");
         String list = "function f(x:list[0:?] of real):real;";
-        partsIs(list + "x[" + times("(", 8) + "1" + times(")", 8) + "]=" + times("(", 8) + "1" + times(")", 8) + ";end;end;", "fine");
+        partsIs(list + "x[" + times("(", 8) + "1" + times(")", 8) + "]=" + times("(", 8) + "1" + times(")", 8) + ";end;end;",
+            "fine");
         partsIs(list + "x[" + times("(", 9) + "1" + times(")", 9) + "]=1;end;end;", "5@47");
         partsIs(list + "x[1]=" + times("(", 9) + "1" + times(")", 9) + ";end;end;", "5@50");
     }
@@ -434,7 +449,8 @@ public final class TextLimitsTest {
         for (String one : new String[] {"(1)", "[1]", "abs(1)", "1[1]", "query(q<*1|1)", "-1", "-(1)", "-1[1]"}) {
             workIs(times(one + "+", 20) + one, "fine");
             workIs("[" + times(one + ",", 20) + one + "]", "fine");
-            workIs(times("(", 6) + one + "+(" + one + ")" + times(")", 6), one.matches("-[(1].*[)\\]]") ? "5@" + nested(one) : "fine");
+            workIs(times("(", 6) + one + "+(" + one + ")" + times(")", 6), one.matches("-[(1].*[)\\]]") ? "5@"
+                + nested(one) : "fine");
         }
         workIs(times("not 1 and ", 20) + "not (1)", "fine");
         workIs("1" + times("[1]", 20), "fine");

@@ -116,14 +116,16 @@ public final class ValueLimitsTest {
     private static void likeOfAggregates() {
         makeInstances("entity e;b:bag[0:?] of integer;s:set[0:?] of integer;r:bag[0:?] of real;end;", 1, 1);
         String[][] bags = {{"[1,1,2]", "[1,2,2]", "f"}, {"[1,2,2]", "[1,1,2]", "f"}, {"[1,1,2]", "[2,1,1]", "t"},
-            {"[1,2,1,2]", "[2,2,1,1]", "t"}, {"[1,1,1]", "[1,1]", "f"}, {"[]", "[]", "t"}, {"[1]", "[2]", "f"}, {"[1:24]", "[1:24]", "t"},
-            {"[1:23,2]", "[2,1:23]", "t"}, {"[1:23,2]", "[2:2,1:22]", "f"}, {"[1,2,3]", "[3,4,1]", "f"}};
+            {"[1,2,1,2]", "[2,2,1,1]", "t"}, {"[1,1,1]", "[1,1]", "f"}, {"[]", "[]", "t"}, {"[1]", "[2]", "f"},
+            {"[1:24]", "[1:24]", "t"}, {"[1:23,2]", "[2,1:23]", "t"}, {"[1:23,2]", "[2:2,1:22]", "f"},
+            {"[1,2,3]", "[3,4,1]", "f"}};
         for (String[] pair : bags) {
             c.set(0, 0, pair[0]);
             c.set(1, 0, pair[1]);
             Checks.due("bags " + pair[0] + pair[1], c.value("#0.b=#1.b"), pair[2]);
         }
-        String[][] sets = {{"[1,2,3]", "[3,1,2]", "t"}, {"[1,2,3]", "[3,1,4]", "f"}, {"[1,2]", "[1,2,3]", "f"}, {"[]", "[]", "t"}};
+        String[][] sets = {{"[1,2,3]", "[3,1,2]", "t"}, {"[1,2,3]", "[3,1,4]", "f"}, {"[1,2]", "[1,2,3]", "f"},
+            {"[]", "[]", "t"}};
         for (String[] pair : sets) {
             c.set(0, 1, pair[0]);
             c.set(1, 1, pair[1]);
@@ -151,7 +153,8 @@ public final class ValueLimitsTest {
 
     /** "for arrays and lists the low indices are equal and the places alike one by one" */
     private static void likeOfArrays() {
-        makeInstances("entity e;a:array[0:?] of integer;b:array[1:?] of integer;r:array[1:?] of real;l:list[0:?] of integer;end;", 1);
+        makeInstances("entity e;a:array[0:?] of integer;b:array[1:?] of integer;r:array[1:?] of real;l:list[0:?] of integer;end;",
+            1);
         c.set(0, 0, "[7,8]");
         c.set(0, 1, "[7,8]");
         c.set(0, 2, "[7.0,8.0]");
@@ -309,8 +312,10 @@ public final class ValueLimitsTest {
 
     /** "a select needs a value that fits one of its names; another type needs what fits its kind" */
     private static void fitsOfSelects() {
-        makeInstances("type n=integer;end;type r=real;end;type l=logical;end;type k=enum(a,b);end;type s1=select(e,n);end;type s2=select(k,s3);end;"
-            + "type s3=select(r);end;type s4=s1;end;entity e;x:s1;y:s2;z:s3;w:s4;lx:list[0:?] of s1;ly:set[0:?] of s2;end;entity f;end;", 1, 2);
+        makeInstances("type n=integer;end;type r=real;end;type l=logical;end;type k=enum(a,b);end;type s1=select(e,n);end;"
+            + "type s2=select(k,s3);end;"
+            + "type s3=select(r);end;type s4=s1;end;entity e;x:s1;y:s2;z:s3;w:s4;lx:list[0:?] of s1;ly:set[0:?] of s2;end;"
+                + "entity f;end;", 1, 2);
         String[] values = {"7", "1.5", "unknown", "a", "#0", "#1", "[7]"};
         String[] fine = {"7 #0", "1.5 a", "1.5", "7 #0"};
         for (int a = 0; a < fine.length; a++) {
@@ -331,7 +336,8 @@ public final class ValueLimitsTest {
 
     /** "array [a : b] needs an array with low index a and b - a + 1 places (any number if b is "?")" */
     private static void fitsOfArrays() {
-        makeInstances("type t=array[3:4] of integer;end;entity e;a:array[0:0] of integer;b:array[2:4] of integer;d:array[24:24] of integer;"
+        makeInstances("type t=array[3:4] of integer;end;entity e;a:array[0:0] of integer;b:array[2:4] of integer;"
+            + "d:array[24:24] of integer;"
             + "f:array[3:?] of integer;g:t;h:array[0:23] of integer;i:array[1:24] of integer;j:array[0:24] of integer;"
             + "k:list[0:?] of integer;end;", 1);
         int[][] sizes = {{1, 0}, {3, 2}, {1, 24}, {-1, 3}, {2, 3}, {24, 0}, {24, 1}, {25, 0}};
@@ -391,7 +397,8 @@ public final class ValueLimitsTest {
     /** "an integer where the kind is real (directly or through types, but not through a select) becomes a real" */
     private static void conversions() {
         makeInstances("type r=real;end;type rr=r;end;type s=select(rr,e);end;type n=integer;end;entity e;a:real;b:rr;d:s;i:n;"
-            + "l:list[0:?] of real;x:array[2:3] of rr;end;function f(x:real):rr;return x;end;function g(x:rr):real;var y:rr;y=7;return x+y;end;"
+            + "l:list[0:?] of real;x:array[2:3] of rr;end;function f(x:real):rr;return x;end;function g(x:rr):real;var y:rr;y=7;"
+                + "return x+y;end;"
             + "function h(x:s):integer;if exists(x) then return 1;end;end;function m(x:integer):real;return x;end;", 1);
         fits(0, "3", "3.0");
         fits(1, "-3", "-3.0");
@@ -413,7 +420,8 @@ public final class ValueLimitsTest {
 
     /** "for a set, values that are alike to one before are left out" */
     private static void setsWithoutAlikeOnes() {
-        makeInstances("type k=enum(a,b);end;entity e;i:set[0:?] of integer;r:set[0:?] of real;l:set[0:?] of logical;k:set[0:?] of k;"
+        makeInstances("type k=enum(a,b);end;entity e;i:set[0:?] of integer;r:set[0:?] of real;l:set[0:?] of logical;"
+            + "k:set[0:?] of k;"
             + "x:set[0:?] of e;b:bag[0:?] of integer;n:integer;end;", 1, 1, 1);
         fits(0, "[3,1,3,2,1]", "S1:1[3,1,2]");
         fits(0, "[7:24]", "S1:1[7]");
@@ -431,7 +439,8 @@ public final class ValueLimitsTest {
 
     /** "Aggregates are values: changing a variable or attribute changes no other one." */
     private static void aggregatesAreValues() {
-        makeInstances("entity e;a:list[0:?] of integer;b:list[0:?] of integer;end;function f(x:list[0:?] of integer):list[0:?] of integer;"
+        makeInstances("entity e;a:list[0:?] of integer;b:list[0:?] of integer;end;"
+            + "function f(x:list[0:?] of integer):list[0:?] of integer;"
             + "var y:list[0:?] of integer;y=x;x[1]=9;y[2]=8;return x+y;end;", 1);
         c.set(0, 0, "[1,2]");
         c.set(0, 1, "#0.a");
@@ -487,7 +496,8 @@ public final class ValueLimitsTest {
 
     /** "with lanes 1 to 5, too, there may be no values; the lane stays so" */
     private static void lanes() {
-        makeInstances("entity e;l:list[0:?] of e;s:set[0:?] of e;b:bag[0:?] of e;a:array[0:1] of e;i:set[0:?] of integer;end;entity f;end;", 1, 1);
+        makeInstances("entity e;l:list[0:?] of e;s:set[0:?] of e;b:bag[0:?] of e;a:array[0:1] of e;i:set[0:?] of integer;end;"
+            + "entity f;end;", 1, 1);
         for (int a = 0; a < 4; a++) {
             c.set(0, a, "[#1,#1]");
         }
