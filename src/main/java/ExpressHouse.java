@@ -1055,6 +1055,8 @@ public final class ExpressHouse {
         static final int AGGREGATE = 0, LOW = 1, HIGH = 2, ITEM = 3;
         static final int END_AGGREGATE = 4, END_LOW = 5, END_HIGH = 6, ACCEPTED = 7, TO_REAL = 8, KIND_CELLS = 9;
         static final int INTEGER_ITEM = 0, REAL_ITEM = 1, LOGICAL_ITEM = 2, TYPE_ITEM = 3, ENTITY_ITEM = 20;
+        /** The bits of what is accepted: those of the items up to the last type, and from here on those of entities. */
+        static final int ENTITY_BIT = 11;
         // cells of a function
         static final int PARAMETERS = 0, RESULT = 1, START = 2, LOCAL_KINDS = 3;
         static final int LOCALS_MOST = 10, UNIQUES_MOST = 4, WHERES_MOST = 6;
@@ -1253,10 +1255,10 @@ public final class ExpressHouse {
             return kindCell(end, AGGREGATE) < 0 && kindCell(end, ITEM) == REAL_ITEM;
         }
 
-        /** What an item accepts, as bits: 0 to 2 the plain ones, 3 + t the items of type t, 11 + e entity e. */
+        /** What an item accepts, as bits: 0 to 2 the plain ones, 3 + t the items of type t, ENTITY_BIT + e entity e. */
         int accepts(int item) {
             if (item >= ENTITY_ITEM) {
-                return 1 << 11 + item - ENTITY_ITEM;
+                return 1 << ENTITY_BIT + item - ENTITY_ITEM;
             }
             if (isType(item)) {
                 return types[item - TYPE_ITEM][ACCEPTS];
@@ -1797,7 +1799,7 @@ public final class ExpressHouse {
             int b = schema.findBuiltIn(name);
             if (f >= 0 && schema.functions[f][Schema.PARAMETERS] == given) {
                 emit(Machine.CALL, f);
-            } else if (b >= 0 && given == (b < Operators.TWO_ARGUMENTS ? 1 : 2)) {
+            } else if (b >= 0 && given == (b < Operators.COPYSIGN ? 1 : 2)) {
                 emit(Machine.BUILT_IN, b);
             } else {
                 tokens.soft(4, place);
@@ -2930,7 +2932,8 @@ public final class ExpressHouse {
                     return bits >= 0 && bits < schema.itemTypes.length
                         && (accepted >> Schema.TYPE_ITEM + schema.itemTypes[(int) bits] & 1) == 1;
                 case Value.INSTANCE:
-                    return bits >= 0 && bits < combinations.length && (accepted >> 11 & combinations[(int) bits]) != 0;
+                    return bits >= 0 && bits < combinations.length
+                        && (accepted >> Schema.ENTITY_BIT & combinations[(int) bits]) != 0;
                 default:
                     return false;
             }
@@ -2968,8 +2971,10 @@ public final class ExpressHouse {
 
     /** What operators and built-in functions answer. */
     private static final class Operators {
-        /** The first built-in function with two arguments. */
-        static final int TWO_ARGUMENTS = 11;
+        // the built-in functions, in the order of Schema.BUILT_IN; from COPYSIGN on they have two arguments
+        private static final int ABS = 0, FLOOR = 1, CEIL = 2, RINT = 3, SIGN = 4, SIZEOF = 5, LOWINDEX = 6,
+            HIGHINDEX = 7, EXISTS = 8, USEDIN = 9, ODD = 10, MIN = 12, NVL = 14;
+        static final int COPYSIGN = 11;
         private static final long NO_INTEGER = 1L << 40;
 
         private final Population people;
@@ -3071,7 +3076,8 @@ public final class ExpressHouse {
         Value logic(int sign, Value a, Value b) {
             long x = a.kind == Value.NOTHING ? Value.UNKNOWN : a.bits;
             long y = b.kind == Value.NOTHING ? Value.UNKNOWN : b.bits;
-            if (a.kind != Value.NOTHING && a.kind != Value.LOGICAL || b.kind != Value.NOTHING && b.kind != Value.LOGICAL) {
+            if (a.kind != Value.NOTHING && a.kind != Value.LOGICAL
+                || b.kind != Value.NOTHING && b.kind != Value.LOGICAL) {
                 return nothing;
             }
             if (sign == Tokens.AND) {
@@ -3186,21 +3192,22 @@ public final class ExpressHouse {
             return new Value(old.sort, old.low, value.kind, old.holes & ~(1 << at), cells);
         }
 
-        /** Answers a built-in function, by its number in Schema.BUILT_IN. */
+        /** Answers a built-in function. */
         Value builtIn(int function, Value a, Value b) {
             switch (function) {
-                case 0: return a.kind == Value.INTEGER ? integer(Math.abs(a.bits)) : realOf(a, Reals.size(a.bits));
-                case 1: return rounded(a, -1);
-                case 2: return rounded(a, 1);
-                case 3: return rounded(a, 0);
-                case 4: return a.kind == Value.INTEGER ? integer(Long.compare(a.bits, 0)) : realOf(a, Reals.signOf(a.bits));
-                case 5: return measure(a, a.cells.length);
-                case 6: return measure(a, a.low);
-                case 7: return measure(a, a.low + a.cells.length - 1);
-                case 8: return truth(a.kind != Value.NOTHING);
-                case 9: return a.kind == Value.INSTANCE ? people.allUsers((int) a.bits) : nothing;
-                case 10: return a.kind == Value.INTEGER ? truth((a.bits & 1) == 1) : nothing;
-                case 14: return a.kind == Value.NOTHING ? b : a;
+                case ABS: return a.kind == Value.INTEGER ? integer(Math.abs(a.bits)) : realOf(a, Reals.size(a.bits));
+                case FLOOR: return rounded(a, -1);
+                case CEIL: return rounded(a, 1);
+                case RINT: return rounded(a, 0);
+                case SIGN:
+                    return a.kind == Value.INTEGER ? integer(Long.compare(a.bits, 0)) : realOf(a, Reals.signOf(a.bits));
+                case SIZEOF: return measure(a, a.cells.length);
+                case LOWINDEX: return measure(a, a.low);
+                case HIGHINDEX: return measure(a, a.low + a.cells.length - 1);
+                case EXISTS: return truth(a.kind != Value.NOTHING);
+                case USEDIN: return a.kind == Value.INSTANCE ? people.allUsers((int) a.bits) : nothing;
+                case ODD: return a.kind == Value.INTEGER ? truth((a.bits & 1) == 1) : nothing;
+                case NVL: return a.kind == Value.NOTHING ? b : a;
                 default: return ofNumbers(function, a, b);
             }
         }
@@ -3223,10 +3230,10 @@ public final class ExpressHouse {
             }
             long x = Reals.of(a);
             long y = Reals.of(b);
-            if (function == 11) {
+            if (function == COPYSIGN) {
                 return new Value(Value.REAL, Reals.signed(x, y));
             }
-            boolean least = function == 12;
+            boolean least = function == MIN;
             if (a.kind == Value.INTEGER && b.kind == Value.INTEGER) {
                 return new Value(Value.INTEGER, least ? Math.min(a.bits, b.bits) : Math.max(a.bits, b.bits));
             }
@@ -3428,7 +3435,7 @@ public final class ExpressHouse {
                     break;
                 case BUILT_IN:
                     int function = fetch();
-                    Value second = function < Operators.TWO_ARGUMENTS ? nothing : pop();
+                    Value second = function < Operators.COPYSIGN ? nothing : pop();
                     push(operators.builtIn(function, pop(), second));
                     break;
                 case INDEX:
@@ -4184,7 +4191,8 @@ public final class ExpressHouse {
             expect('.');
             if (name == Tokens.digitOf('t') || name == Tokens.digitOf('f') || name == Tokens.digitOf('u')) {
                 kind = Value.LOGICAL;
-                bits = name == Tokens.digitOf('t') ? Value.TRUE : name == Tokens.digitOf('f') ? Value.FALSE : Value.UNKNOWN;
+                bits = name == Tokens.digitOf('t') ? Value.TRUE
+                    : name == Tokens.digitOf('f') ? Value.FALSE : Value.UNKNOWN;
                 return;
             }
             int item = people.schema.find(Schema.ITEMS, name);
@@ -4347,6 +4355,7 @@ public final class ExpressHouse {
         }
 
         private void scalar(int kind, long bits) {
+            long[] items = people.schema.names[Schema.ITEMS];
             switch (kind) {
                 case Value.INTEGER:
                     number(bits);
@@ -4361,7 +4370,7 @@ public final class ExpressHouse {
                     break;
                 case Value.ITEM:
                     add('.');
-                    word(bits < 0 || bits >= 20 ? 0 : people.schema.names[Schema.ITEMS][(int) bits]);
+                    word(bits < 0 || bits >= items.length ? 0 : items[(int) bits]);
                     add('.');
                     break;
                 case Value.INSTANCE:

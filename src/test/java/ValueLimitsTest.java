@@ -10,6 +10,7 @@ public final class ValueLimitsTest {
         likeOfArrays();
         likeOfInstances();
         circlesOfInstances();
+        circlesThroughBags();
         likeAfterChanges();
         fitsOfPlainKinds();
         fitsOfSelects();
@@ -264,6 +265,33 @@ public final class ValueLimitsTest {
         is("#0=#21", "f");
         c.set(19, 0, "#19");
         is("#0=#20", "f");
+    }
+
+    /** The greatest relation, too, where a place finds one that turns out to be another one while it is looked for. */
+    private static void circlesThroughBags() {
+        String[][] bags = {{"[#2,#1]", "[#1,#0]"}, {"[#1,#2]", "[#1,#0]"}, {"[#2,#1]", "[#0,#1]"}, {"[#1,#2]", "[#0,#1]"}};
+        for (String[] pair : bags) {
+            makeInstances("entity e;b:bag[0:?] of e;unique b;end;", 1, 1, 1);
+            c.set(0, 0, pair[0]);
+            c.set(2, 0, pair[1]);
+            is("#0=#2", "t");
+            is("#0=#1", "f");
+            likeIs("#2.b", "#0.b", true);
+            Checks.due("bags " + pair[0] + pair[1] + " are unique", c.house.judge(1), 0);
+            Checks.due("the later one", c.house.judged(0, 0), 2);
+            c.set(1, 0, "[]");
+            is("#0=#2", "t");
+            c.set(2, 0, "[#0,#0]");
+            is("#0=#2", "f");
+        }
+        makeInstances("entity e;b:bag[0:?] of e;end;", 1, 1, 1, 1);
+        String[] held = {"[]", "[#3,#2]", "[#2,#0]", "[]"};
+        for (int x = 0; x < held.length; x++) {
+            c.set(x, 0, held[x]);
+        }
+        is("#0=#3", "t");
+        is("#1=#2", "t");
+        is("#1=#3", "f");
     }
 
     private static void likeAfterChanges() {
